@@ -26,9 +26,13 @@ public final class ShelvesTest {
         }
         Check.due("row of none", x.row(7, 0, 0), 1);
         Check.due("row of 40", x.row(6, 3, 40), 1);
-        Check.due("the last element", x.set(6, 39, 5), 1);
+        for (int i = 0; i < 40; i++) {
+            Check.due("any element", x.set(6, i, 5), 1);
+        }
         Check.due("the same SHELF again", x.row(6, 3, 40), 1);
-        Check.due("a new ROW is empty", x.element(6, 39), 0);
+        for (int i = 0; i < 40; i++) {
+            Check.due("a new ROW is of 0", x.element(6, i), 0);
+        }
         x.show(5, 2);
         Check.due("a ROW where a BEND was", x.row(5, 1, 1), 1);
         Check.due("holds", x.holds(5), 1);

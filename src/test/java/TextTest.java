@@ -41,7 +41,7 @@ public final class TextTest {
 
     private static void readsAll() {
         OnTheRoof x = new OnTheRoof();
-        int statements = Ways.read(x, "bend 5 9 999 1000;bend 0 0 1 0;pace 9;wet 1;grip 10;seen 1 100;gone 0 0;"
+        int statements = Ways.read(x, "bend 5 9 999 1000;bend 0 0 1 0;pace 9;wet 1;grip 10;seen 1 100;gone 0 3;"
                 + "call 1 99 100;look 0 0;look 1 1;look 1 2");
         Check.due("way", statements, 11);
         int[] due = {2, 2, 9, 1, 10, 1000, -1};
@@ -54,7 +54,7 @@ public final class TextTest {
             Check.due("bendOf(0, " + what + ")", x.bendOf(0, what), first[what]);
             Check.due("bendOf(1, " + what + ")", x.bendOf(1, what), second[what]);
         }
-        int[] signs = {1, 1, 100, 0, 0, 0};
+        int[] signs = {1, 1, 100, 0, 0, 3};
         for (int i = 0; i < signs.length; i++) {
             Check.due("signOf", x.signOf(i / 3, i % 3), signs[i]);
         }
@@ -86,6 +86,8 @@ public final class TextTest {
         Check.due("its KIND", x.bendOf(3, 0), 2);
         Check.due("SIGNS", x.status(1), 3);
         Check.due("SURE", x.signOf(1, 2), 6);
+        Check.due("gone", Ways.read(x, "gone 2 0"), 1);
+        Check.due("where it is gone", x.signOf(3, 0), 2);
         Check.due("CALLS", x.status(17), 2);
         Check.due("KNOWS", x.callOf(1, 2), 9);
     }
@@ -104,6 +106,13 @@ public final class TextTest {
         fault("bends 0 1 2 3", 0);
         fault("ben 0 1 2 3", 0);
         fault("Bend 0 1 2 3", 0);
+        fault("tend 0 1 2 3", 0);
+        fault("pacez 4", 0);
+        fault("apace 4", 0);
+        fault("pace{4", 4);
+        fault("pace`4", 4);
+        fault("pace/4", 4);
+        fault("pace:4", 4);
         fault(" 5", 1);
         fault(";pace 4", 0);
         fault("pace 4;;pace 5", 7);
