@@ -941,7 +941,7 @@ public final class OnTheRoof {
         }
 
         private int cellOf(int row, int column) {
-            return has(row) && column >= 0 && column < width ? row * width + column : NONE;
+            return row >= 0 && row < count && column >= 0 && column < width ? row * width + column : NONE;
         }
     }
 

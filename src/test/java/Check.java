@@ -42,6 +42,11 @@ final class Check {
         }
     }
 
+    /** How many answers were looked at. */
+    static int count() {
+        return all;
+    }
+
     /** The last call of a test's main method. */
     static void end() {
         System.out.println("  " + all + " answers, " + wrong + " of them wrong");

@@ -240,18 +240,7 @@ final class Model {
     long[] bestByTable(int seconds) {
         int n = bends.size();
         int tens = seconds / 10;
-        long[][] most = new long[n + 1][tens + 1];
-        for (int i = n - 1; i >= 0; i--) {
-            for (int t = 0; t <= tens; t++) {
-                most[i][t] = most[i + 1][t];
-                for (int look = 1; look <= 3; look++) {
-                    int rest = t - (seconds(i, look) + 9) / 10;
-                    if (rest >= 0) {
-                        most[i][t] = Math.max(most[i][t], most[i + 1][rest] + found(i, look));
-                    }
-                }
-            }
-        }
+        long[][] most = mostFromEachOn(tens);
         long[] best = new long[n + 1];
         best[0] = most[0][tens];
         int left = tens;
@@ -268,6 +257,33 @@ final class Model {
             left = rest;
         }
         return best;
+    }
+
+    /** Of each BEND and of each time: the most FOUND by it and those behind it. */
+    private long[][] mostFromEachOn(int tens) {
+        int n = bends.size();
+        long[][] most = new long[n + 1][tens + 1];
+        for (int i = n - 1; i >= 0; i--) {
+            most[i] = most[i + 1].clone();
+            for (int look = 1; look <= 3; look++) {
+                long found = found(i, look);
+                int takes = (seconds(i, look) + 9) / 10;
+                for (int t = takes; t <= tens; t++) {
+                    most[i][t] = Math.max(most[i][t], most[i + 1][t - takes] + found);
+                }
+            }
+        }
+        return most;
+    }
+
+    long soonest(int v) {
+        long[] most = mostFromEachOn(900)[0];
+        for (int t = 0; t <= 900; t++) {
+            if (most[t] >= v) {
+                return 10 * t;
+            }
+        }
+        return -1;
     }
 
     long next() {

@@ -5,8 +5,10 @@ import java.util.Random;
 
 /** Random runs of calls, each answer compared with the Model's. */
 public final class ModelTest {
-    private static final int RUNS = 400;
-    private static final int CALLS = 250;
+    private static final int RUNS = 2000;
+
+    /** What an object answers is promised up to its 512th call; no step makes more than 60. */
+    private static final int CALLS = 512 - 60;
 
     private final Random random;
     private final OnTheRoof x = new OnTheRoof();
@@ -15,6 +17,9 @@ public final class ModelTest {
 
     /** Few bends let all rows be tried. */
     private final int mostBends;
+
+    /** Calls whose answers aren't looked at. */
+    private int more;
 
     private ModelTest(int seed) {
         random = new Random(seed);
@@ -29,7 +34,8 @@ public final class ModelTest {
     }
 
     private void runAll() {
-        for (int i = 0; i < CALLS; i++) {
+        int from = Check.count();
+        while (Check.count() - from + more < CALLS) {
             if (random.nextInt(3) == 0) {
                 change();
             } else if (m.bends.isEmpty()) {
@@ -171,6 +177,7 @@ public final class ModelTest {
         int look = random.nextInt(3);
         int pace = 1 + random.nextInt(9);
         int wet = random.nextInt(2);
+        more += 30;
         Check.due("way", Ways.read(x, "look " + bend + " " + look + "; pace " + pace + ";wet" + wet), 3);
         m.looks.get(bend).add(look + 1);
         m.pace = pace;
@@ -267,6 +274,8 @@ public final class ModelTest {
         int seconds = random.nextBoolean() ? upTo(9000) : upTo(600);
         long[] best = m.bestByTable(seconds);
         Check.due("best FOUND of many", x.best(seconds, -1), best[0]);
+        int v = upTo((int) best[0] + 1);
+        Check.due("soonest of many", x.soonest(v), m.soonest(v));
         for (int i = 0; i < m.bends.size(); i++) {
             Check.due("best row of many", x.best(seconds, i), best[i + 1]);
         }
@@ -308,6 +317,7 @@ public final class ModelTest {
     }
 
     private void tell(int s, List<Long> row) {
+        more += 1 + row.size();
         x.row(s, 1 + random.nextInt(3), row.size());
         for (int i = 0; i < row.size(); i++) {
             x.set(s, i, row.get(i));

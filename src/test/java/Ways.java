@@ -70,8 +70,9 @@ final class Ways {
             all.append(x.callOf(i, 0)).append(' ').append(x.callOf(i, 1)).append(' ').append(x.callOf(i, 2)).append(';');
         }
         for (int s = 0; s < 8; s++) {
-            all.append('\n').append(x.holds(s)).append(':');
-            for (int i = 0; i < 40; i++) {
+            int held = x.holds(s);
+            all.append('\n').append(held).append(':');
+            for (int i = 0; i < 40 && held >= 0 && held <= 4; i++) {
                 all.append(x.element(s, i)).append(',');
             }
         }
