@@ -121,54 +121,46 @@ public final class OrderTest {
         Check.refused(x, -4, "says, NOTHING", () -> x.says(2, 5));
     }
 
-    private static void judges() {
+    private interface Told {
+        long call(OnTheRoof x, int s, int n);
+    }
+
+    /** What judge(), apart() and search() have in common: BAD SHELF, n; OTHER; NOTHING; BAD: fewer elements. */
+    private static void told(String call, Told made) {
         OnTheRoof x = shelves();
-        for (int s = 0; s <= 2; s++) {
-            int shelf = s;
-            Check.refused(x, -2, "judge, BAD n and whatever SHELF " + s + " holds", () -> x.judge(shelf, 41));
-            Check.refused(x, -2, "judge, BAD n and whatever SHELF " + s + " holds", () -> x.judge(shelf, -1));
+        int[][] bad = {{8, 0}, {-1, 0}, {8, 41}, {0, 41}, {1, 41}, {2, 41}, {0, -1}, {1, -1}, {2, -1}};
+        for (int[] b : bad) {
+            Check.refused(x, -2, call + ", BAD, whatever the SHELF holds", () -> made.call(x, b[0], b[1]));
         }
-        Check.refused(x, -2, "judge, BAD SHELF", () -> x.judge(8, 0));
-        Check.refused(x, -3, "judge, OTHER", () -> x.judge(1, 0));
-        Check.refused(x, -3, "judge, OTHER and fewer elements", () -> x.judge(1, 40));
-        Check.refused(x, -4, "judge, NOTHING", () -> x.judge(2, 0));
-        Check.refused(x, -4, "judge, NOTHING and fewer elements", () -> x.judge(2, 40));
-        Check.refused(x, -2, "judge, fewer elements", () -> x.judge(0, 3));
+        Check.refused(x, -3, call + ", OTHER", () -> made.call(x, 1, 0));
+        Check.refused(x, -3, call + ", OTHER and fewer elements", () -> made.call(x, 1, 40));
+        Check.refused(x, -4, call + ", NOTHING", () -> made.call(x, 2, 0));
+        Check.refused(x, -4, call + ", NOTHING and fewer elements", () -> made.call(x, 2, 40));
+        Check.refused(x, -2, call + ", fewer elements, and WRONG or STUCK", () -> made.call(x, 0, 3));
+    }
+
+    private static void judges() {
+        told("judge", (x, s, n) -> x.judge(s, n));
+        OnTheRoof x = shelves();
         Check.due("judge, as many elements", x.judge(0, 2), 1);
+        Check.due("that isn't refused", x.status(12) + x.status(15), 0);
     }
 
     private static void aparts() {
+        told("apart", (x, s, n) -> x.apart(s, n));
         OnTheRoof x = shelves();
-        for (int s = 0; s <= 2; s++) {
-            int shelf = s;
-            Check.refused(x, -2, "apart, BAD n and whatever SHELF " + s + " holds", () -> x.apart(shelf, 41));
-            Check.refused(x, -2, "apart, BAD n and whatever SHELF " + s + " holds", () -> x.apart(shelf, -1));
-        }
-        Check.refused(x, -2, "apart, BAD SHELF", () -> x.apart(-1, 0));
-        Check.refused(x, -3, "apart, OTHER", () -> x.apart(1, 0));
-        Check.refused(x, -3, "apart, OTHER and fewer elements", () -> x.apart(1, 40));
-        Check.refused(x, -4, "apart, NOTHING", () -> x.apart(2, 0));
-        Check.refused(x, -4, "apart, NOTHING and fewer elements", () -> x.apart(2, 40));
-        Check.refused(x, -2, "apart, fewer elements, and WRONG", () -> x.apart(0, 3));
         Check.refused(x, -5, "apart, WRONG", () -> x.apart(0, 2));
         Check.due("apart, not WRONG yet", x.apart(0, 1), 0);
     }
 
     private static void searches() {
+        told("search, SECONDS", (x, s, n) -> x.search(s, n, 0));
+        told("search, FOUND", (x, s, n) -> x.search(s, n, 1));
         OnTheRoof x = shelves();
-        int[][] bad = {{41, 0}, {-1, 0}, {0, 2}, {0, -1}, {2, 2}, {41, 2}};
-        for (int s = 0; s <= 2; s++) {
-            int shelf = s;
-            for (int[] b : bad) {
-                Check.refused(x, -2, "search, BAD and whatever SHELF " + s + " holds", () -> x.search(shelf, b[0], b[1]));
-            }
+        int[][] bad = {{0, 0, 2}, {0, 0, -1}, {1, 0, 2}, {2, 0, 2}, {0, 2, 2}, {0, 3, 2}, {1, 41, 2}, {8, 41, 2}};
+        for (int[] b : bad) {
+            Check.refused(x, -2, "search, BAD what", () -> x.search(b[0], b[1], b[2]));
         }
-        Check.refused(x, -2, "search, BAD SHELF", () -> x.search(8, 0, 0));
-        Check.refused(x, -3, "search, OTHER", () -> x.search(1, 0, 0));
-        Check.refused(x, -3, "search, OTHER and fewer elements", () -> x.search(1, 40, 1));
-        Check.refused(x, -4, "search, NOTHING", () -> x.search(2, 0, 0));
-        Check.refused(x, -4, "search, NOTHING and fewer elements", () -> x.search(2, 40, 1));
-        Check.refused(x, -2, "search, fewer elements, and STUCK", () -> x.search(0, 3, 0));
         Check.refused(x, -5, "search, STUCK", () -> x.search(0, 2, 0));
         Check.refused(x, -5, "search, STUCK", () -> x.search(0, 2, 1));
         Check.due("search, not STUCK yet", x.search(0, 1, 0), 11);
