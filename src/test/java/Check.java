@@ -23,12 +23,12 @@ final class Check {
     }
 
     /** The call answers the number, counts it once, and changes nothing else. */
-    static void refused(OnTheRoof x, int number, String call, LongSupplier made) {
+    static void refused(Roof x, int number, String call, LongSupplier made) {
         refusedAs(x, number, number, call, made);
     }
 
     /** The same, where the answer that tells the number is another. */
-    static void refusedAs(OnTheRoof x, int number, int answer, String call, LongSupplier made) {
+    static void refusedAs(Roof x, int number, int answer, String call, LongSupplier made) {
         String before = Ways.picture(x);
         int[] counts = new int[5];
         for (int i = 0; i < counts.length; i++) {

@@ -21,7 +21,7 @@ public final class DrivesTest {
     }
 
     private static void fast() {
-        OnTheRoof x = Ways.three();
+        Roof x = Ways.three();
         int[][] due = {{0, 9}, {961493, 3}, {961494, 2}, {973242, 2}, {973243, 1}, {983087, 1}, {983088, -1},
             {1000000, -1}};
         for (int[] d : due) {
@@ -37,13 +37,13 @@ public final class DrivesTest {
     }
 
     private static void drove() {
-        OnTheRoof x = Ways.three();
+        Roof x = Ways.three();
         Check.due("drove(0)", x.drove(0), 9);
         Check.due("drove(1)", x.drove(1), 9);
         Check.due("drove(2)", x.drove(2), 1);
         x.ask(2, 10);
         Check.due("of several the least", x.drove(0), 1);
-        OnTheRoof hairpins = new OnTheRoof();
+        Roof hairpins = new Roof();
         for (int i = 0; i < 8; i++) {
             hairpins.bend(3, 9, 1, 0);
         }
@@ -62,7 +62,7 @@ public final class DrivesTest {
     }
 
     private static void gripFor() {
-        OnTheRoof x = Ways.three();
+        Roof x = Ways.three();
         int[][] due = {{0, 0}, {961493, 0}, {961494, 1}, {966376, 1}, {966377, 2}, {1000000, 10}};
         for (int[] d : due) {
             Check.due("gripFor(" + d[0] + ")", x.gripFor(d[0]), d[1]);
@@ -73,30 +73,30 @@ public final class DrivesTest {
     }
 
     private static void otherwise() {
-        OnTheRoof x = Ways.three();
+        Roof x = Ways.three();
         Check.due("if it were WET", x.otherwise(), 904220);
         x.ask(1, 1);
         Check.due("if it weren't", x.otherwise(), 961493);
         Check.due("WET stays", x.status(3), 1);
         x.ask(2, 10);
         Check.due("GRIP 10", x.otherwise(), 1000000);
-        Check.due("without BENDS", new OnTheRoof().otherwise(), 1000000);
+        Check.due("without BENDS", new Roof().otherwise(), 1000000);
     }
 
     private static void slows() {
-        OnTheRoof x = Ways.three();
+        Roof x = Ways.three();
         int[] due = {0, 2, 3, 3};
         for (int k = 0; k <= 3; k++) {
             Check.due("slows(" + k + ")", x.slows(k), due[k]);
         }
-        OnTheRoof even = Ways.even(14, 1);
+        Roof even = Ways.even(14, 1);
         Check.due("as many as may be", Integer.bitCount(even.slows(3)), 3);
-        OnTheRoof last = Ways.even(13, 1);
+        Roof last = Ways.even(13, 1);
         last.bend(3, 9, 1, 0);
         Check.due("the last", last.slows(1), 1 << 13);
         last.ask(0, 1);
         Check.due("none gains anything", last.slows(3), 0);
-        OnTheRoof three = new OnTheRoof();
+        Roof three = new Roof();
         for (int i = 0; i < 10; i++) {
             three.bend(i % 4 == 1 ? 3 : 5, 5, 1, 0);
         }
@@ -106,7 +106,7 @@ public final class DrivesTest {
     }
 
     private static void without() {
-        OnTheRoof x = Ways.three();
+        Roof x = Ways.three();
         int[] due = {976135, 976135, 970225};
         for (int bend = 0; bend < 3; bend++) {
             Check.due("without(" + bend + ")", x.without(bend), due[bend]);
@@ -118,16 +118,16 @@ public final class DrivesTest {
     }
 
     private static void once() {
-        OnTheRoof x = Ways.three();
+        Roof x = Ways.three();
         Check.due("once(0)", x.once(0), 0);
         Check.due("once(1)", x.once(1), 38507);
         Check.due("once(2)", x.once(2), 75532);
         Check.due("once(999)", x.once(999), 1000000);
-        Check.due("without BENDS", new OnTheRoof().once(999), 0);
+        Check.due("without BENDS", new Roof().once(999), 0);
     }
 
     private static void until() {
-        OnTheRoof x = Ways.three();
+        Roof x = Ways.three();
         int[][] due = {{0, 0}, {1, 1}, {38507, 1}, {38508, 2}, {75532, 2}, {75533, 3}};
         for (int[] d : due) {
             Check.due("until(" + d[0] + ")", x.until(d[0]), d[1]);
@@ -135,7 +135,7 @@ public final class DrivesTest {
         int all = x.until(1000000);
         Check.due("surely", x.once(all), 1000000);
         Check.that("not surely ahead", x.once(all - 1) < 1000000);
-        OnTheRoof seldom = new OnTheRoof();
+        Roof seldom = new Roof();
         seldom.ask(0, 1);
         seldom.bend(0, 1, 1, 0);
         int most = seldom.once(999);
@@ -145,7 +145,7 @@ public final class DrivesTest {
     }
 
     private static void worth() {
-        OnTheRoof x = Ways.three();
+        Roof x = Ways.three();
         Check.due("worth", x.worth(10, 100, 50), -12);
         Check.due("worth of nothing", x.worth(0, 0, 0), 0);
         Check.due("the least", x.worth(0, 999, 9999), -9999);
@@ -157,8 +157,8 @@ public final class DrivesTest {
         }
     }
 
-    private static OnTheRoof called() {
-        OnTheRoof x = Ways.three();
+    private static Roof called() {
+        Roof x = Ways.three();
         x.call(1, 10, 50);
         x.call(2, 20, 100);
         x.call(2, 5, 10);
@@ -167,14 +167,14 @@ public final class DrivesTest {
     }
 
     private static void hears() {
-        OnTheRoof one = Ways.three();
+        Roof one = Ways.three();
         one.call(1, 10, 50);
         Check.due("from the beginning", one.hears(0), 14887);
         one.call(1, 3, 100);
         Check.due("another at the same BEND", one.hears(0), 14887);
         one.call(2, 3, 100);
         Check.due("another behind", one.hears(0), 14887);
-        OnTheRoof x = called();
+        Roof x = called();
         int[] due = {7387, 8732, 873, 15000};
         for (int i = 0; i < due.length; i++) {
             Check.due("hears(" + i + ")", x.hears(i), due[i]);
@@ -185,13 +185,13 @@ public final class DrivesTest {
         for (int c : calls) {
             Check.refused(x, -2, "hears(" + c + ")", () -> x.hears(c));
         }
-        OnTheRoof cut = Ways.three();
+        Roof cut = Ways.three();
         cut.call(2, 1, 1);
         Check.due("cut once, not BEND by BEND", cut.hears(0), 385);
     }
 
     private static void rings() {
-        OnTheRoof x = called();
+        Roof x = called();
         int[][] due = {{0, 0}, {1, 8}, {5, 8}, {6, 12}, {10, 12}, {11, 9}, {35, 11}, {36, 15}, {999, 15}};
         for (int[] d : due) {
             Check.due("rings(" + d[0] + ")", x.rings(d[0]), d[1]);
@@ -208,7 +208,7 @@ public final class DrivesTest {
     }
 
     private static void refusals() {
-        OnTheRoof x = Ways.three();
+        Roof x = Ways.three();
         int[] wrong = {-1, 1000001, MIN, MAX};
         for (int v : wrong) {
             Check.refused(x, -2, "fast(" + v + ")", () -> x.fast(v));
@@ -223,7 +223,7 @@ public final class DrivesTest {
 
     /** What is told of HELD "without SIGNS, LOOKS" is the same with them. */
     private static void aside() {
-        OnTheRoof x = Ways.three();
+        Roof x = Ways.three();
         x.sign(2, false, 100);
         x.look(0, 3);
         Check.due("fast", x.fast(961493), 3);

@@ -9,7 +9,7 @@ public final class EdgesTest {
     private static final int MAX = Integer.MAX_VALUE;
 
     private interface Made {
-        long call(OnTheRoof x, int[] a);
+        long call(Roof x, int[] a);
     }
 
     private final int bends;
@@ -37,8 +37,8 @@ public final class EdgesTest {
         Check.end();
     }
 
-    private OnTheRoof way() {
-        OnTheRoof x = new OnTheRoof();
+    private Roof way() {
+        Roof x = new Roof();
         for (int i = 0; i < bends; i++) {
             x.bend(i % 6, 9 - i % 10, 10 + i, 10 * i);
         }
@@ -50,8 +50,8 @@ public final class EdgesTest {
     }
 
     /** Every SHELF holds a ROW of as many as can be, each element the same. */
-    private OnTheRoof rows(int element) {
-        OnTheRoof x = way();
+    private Roof rows(int element) {
+        Roof x = way();
         for (int s = 0; s < 8; s++) {
             x.row(s, s % 5, 40);
             for (int i = 0; i < 40; i++) {
@@ -61,15 +61,15 @@ public final class EdgesTest {
         return x;
     }
 
-    private OnTheRoof shown() {
-        OnTheRoof x = way();
+    private Roof shown() {
+        Roof x = way();
         for (int s = 0; s < 8; s++) {
             x.show(s, last);
         }
         return x;
     }
 
-    private OnTheRoof withoutTheLast() {
+    private Roof withoutTheLast() {
         return bends == 14 ? new EdgesTest(13).way() : way();
     }
 
@@ -145,11 +145,11 @@ public final class EdgesTest {
         return new int[] {least, most};
     }
 
-    private void edges(String call, Supplier<OnTheRoof> state, Made made, int[]... ranges) {
+    private void edges(String call, Supplier<Roof> state, Made made, int[]... ranges) {
         edgesAs(-2, call, state, made, ranges);
     }
 
-    private void edgesAs(int bad, String call, Supplier<OnTheRoof> state, Made made, int[]... ranges) {
+    private void edgesAs(int bad, String call, Supplier<Roof> state, Made made, int[]... ranges) {
         String name = call + " on " + bends + ": ";
         for (int corner = 0; corner < 1 << ranges.length; corner++) {
             int[] a = new int[ranges.length];
@@ -162,14 +162,14 @@ public final class EdgesTest {
                 for (int v : outside) {
                     int[] wrong = a.clone();
                     wrong[p] = v;
-                    OnTheRoof x = state.get();
+                    Roof x = state.get();
                     Check.refusedAs(x, -2, bad, name + told(wrong), () -> made.call(x, wrong));
                 }
             }
         }
     }
 
-    private static void taken(String name, OnTheRoof x, Made made, int bad, int[] a) {
+    private static void taken(String name, Roof x, Made made, int bad, int[] a) {
         Check.that(name + told(a) + " isn't BAD", made.call(x, a) != bad);
         Check.due(name + told(a) + ", BAD", x.status(12), 0);
     }
@@ -183,7 +183,7 @@ public final class EdgesTest {
         for (int i = -1; i <= 4; i++) {
             for (int j = -1; j <= 6; j++) {
                 for (int n = -1; n <= 6; n++) {
-                    OnTheRoof x = new OnTheRoof();
+                    Roof x = new Roof();
                     Ways.tell(x, 6, 1, 2, 3);
                     Ways.tell(x, 7, 4, 5, 6, 7, 8);
                     int from = i;
@@ -201,7 +201,7 @@ public final class EdgesTest {
                 }
             }
         }
-        OnTheRoof full = new OnTheRoof();
+        Roof full = new Roof();
         full.row(0, 0, 40);
         full.row(7, 0, 40);
         full.row(3, 0, 0);
@@ -228,7 +228,7 @@ public final class EdgesTest {
 
     /** From one to another that isn't ahead of it. */
     private static void betweens() {
-        OnTheRoof x = Ways.even(14, 1);
+        Roof x = Ways.even(14, 1);
         for (int bend = -1; bend <= 14; bend++) {
             for (int other = -1; other <= 14; other++) {
                 int from = bend;

@@ -16,7 +16,7 @@ public final class EmptyAndFullTest {
     }
 
     private static void noBends() {
-        OnTheRoof x = new OnTheRoof();
+        Roof x = new Roof();
         Check.due("weight", x.weight(-1), 1000000);
         Check.due("likely", x.likely(-1), 1000);
         Check.due("fell", x.fell(-1, 1), 1000000);
@@ -56,7 +56,7 @@ public final class EmptyAndFullTest {
     }
 
     private static void noBendOfThatNumber() {
-        OnTheRoof x = new OnTheRoof();
+        Roof x = new Roof();
         Check.refused(x, -2, "show", () -> x.show(0, 0));
         Check.refused(x, -2, "sign", () -> x.sign(0, true, 0));
         Check.refused(x, -2, "bendOf", () -> x.bendOf(0, 0));
@@ -77,7 +77,7 @@ public final class EmptyAndFullTest {
     }
 
     private static void noSigns() {
-        OnTheRoof x = Ways.three();
+        Roof x = Ways.three();
         Check.refused(x, -2, "signOf", () -> x.signOf(0, 0));
         Check.due("anew", x.anew(), 0);
         Check.due("a SIGN", x.sign(0, true, 5), 1);
@@ -88,14 +88,14 @@ public final class EmptyAndFullTest {
     }
 
     private static void noCalls() {
-        OnTheRoof x = Ways.three();
+        Roof x = Ways.three();
         Check.refused(x, -2, "callOf", () -> x.callOf(0, 0));
         Check.refused(x, -2, "hears", () -> x.hears(0));
         Check.due("rings", x.rings(999), 0);
     }
 
     private static void emptyShelves() {
-        OnTheRoof x = Ways.three();
+        Roof x = Ways.three();
         for (int s = 0; s < 8; s++) {
             int shelf = s;
             Check.due("holds", x.holds(s), -1);
@@ -113,7 +113,7 @@ public final class EmptyAndFullTest {
 
     private static void emptyRows() {
         for (int sort = 0; sort <= 4; sort++) {
-            OnTheRoof x = Ways.three();
+            Roof x = Ways.three();
             Check.due("an empty ROW", x.row(7, sort, 0), 1);
             Check.due("is something", x.status(10), 1);
             Check.due("holds", x.holds(7), sort);
@@ -134,7 +134,7 @@ public final class EmptyAndFullTest {
 
     private static void fullRows() {
         for (int sort = 0; sort <= 4; sort++) {
-            OnTheRoof x = Ways.three();
+            Roof x = Ways.three();
             Check.due("a full ROW", x.row(0, sort, 40), 1);
             for (int i = 0; i < 40; i++) {
                 Check.due("at first", x.element(0, i), 0);
@@ -154,7 +154,7 @@ public final class EmptyAndFullTest {
     }
 
     private static void fullShelves() {
-        OnTheRoof x = Ways.three();
+        Roof x = Ways.three();
         for (int s = 0; s < 8; s++) {
             if (s % 2 == 0) {
                 x.row(s, s / 2, 40);
@@ -172,7 +172,7 @@ public final class EmptyAndFullTest {
     }
 
     private static void fullWay() {
-        OnTheRoof x = Ways.even(14, 999);
+        Roof x = Ways.even(14, 999);
         for (int i = 1; i <= 8; i++) {
             Check.due("sign", x.sign(13, i % 2 == 0, i), i);
         }
@@ -202,7 +202,7 @@ public final class EmptyAndFullTest {
     }
 
     private static void anewMakesRoom() {
-        OnTheRoof x = Ways.three();
+        Roof x = Ways.three();
         for (int i = 1; i <= 8; i++) {
             x.sign(0, true, 1);
         }
@@ -219,7 +219,7 @@ public final class EmptyAndFullTest {
     }
 
     private static void backMakesRoom() {
-        OnTheRoof x = Ways.even(13, 1);
+        Roof x = Ways.even(13, 1);
         x.image();
         Check.due("the 14th", x.bend(3, 9, 7, 6), 13);
         for (int i = 0; i < 6; i++) {

@@ -13,7 +13,7 @@ public final class ExtremesTest {
     private static final int[][] DRIVES = {{1, 0, 0}, {9, 1, 0}, {9, 0, 9}, {3, 1, 10}};
 
     private final String name;
-    private final OnTheRoof x = new OnTheRoof();
+    private final Roof x = new Roof();
     private final Model m = new Model();
 
     private ExtremesTest(String name) {

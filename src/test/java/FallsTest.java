@@ -22,7 +22,7 @@ public final class FallsTest {
     }
 
     private static void fall() {
-        OnTheRoof x = new OnTheRoof();
+        Roof x = new Roof();
         for (int kind = 0; kind <= 5; kind++) {
             x.bend(kind, 4, 1, 0);
         }
@@ -46,7 +46,7 @@ public final class FallsTest {
     }
 
     private static void fell() {
-        OnTheRoof x = Ways.three();
+        Roof x = Ways.three();
         int[] due = {961493, 15000, 14775, 8732};
         for (int bend = -1; bend < 3; bend++) {
             Check.due("fell(" + bend + ", 3)", x.fell(bend, 3), due[bend + 1]);
@@ -57,10 +57,10 @@ public final class FallsTest {
         Check.due("without LOOKS", x.fell(0, 3), 15000);
         Check.due("by another PACE", x.fell(1, 1), 2985);
         Check.due("HELD by another PACE", x.fell(-1, 1), 983087);
-        Check.due("HELD without BENDS", new OnTheRoof().fell(-1, 9), 1000000);
+        Check.due("HELD without BENDS", new Roof().fell(-1, 9), 1000000);
     }
 
-    private static void weights(String when, OnTheRoof x, int... due) {
+    private static void weights(String when, Roof x, int... due) {
         int all = 0;
         for (int bend = -1; bend < due.length - 1; bend++) {
             Check.due(when + ", weight(" + bend + ")", x.weight(bend), due[bend + 1]);
@@ -70,15 +70,15 @@ public final class FallsTest {
     }
 
     private static void weight() {
-        OnTheRoof x = Ways.three();
+        Roof x = Ways.three();
         weights("at first", x, 961493, 15000, 14775, 8732);
         x.ask(0, 1);
         weights("by PACE 1", x, 983087, 5000, 2985, 8928);
-        weights("no BENDS", new OnTheRoof(), 1000000);
+        weights("no BENDS", new Roof(), 1000000);
     }
 
     private static void weightBySigns() {
-        OnTheRoof x = Ways.three();
+        Roof x = Ways.three();
         x.sign(1, true, 30);
         weights("seen at 1", x, 961493, 10500, 10342, 8732);
         x.sign(0, false, 75);
@@ -89,14 +89,14 @@ public final class FallsTest {
         weights("seen at 0, not sure at all", x, 237969, 10500, 2585, 2183);
         x.sign(0, true, 100);
         weights("seen at 0, quite sure", x, 237969, 0, 2585, 2183);
-        OnTheRoof other = Ways.three();
+        Roof other = Ways.three();
         other.sign(0, false, 33);
         other.sign(1, true, 33);
         weights("cut sign by sign", other, 644200, 10050, 6632, 5850);
     }
 
     private static void weightBySignsThenLooks() {
-        OnTheRoof x = Ways.three();
+        Roof x = Ways.three();
         x.look(1, 1);
         x.look(1, 2);
         Check.due("MISS", x.bendOf(1, 4), 28);
@@ -111,12 +111,12 @@ public final class FallsTest {
     }
 
     private static void likely() {
-        OnTheRoof x = Ways.three();
+        Roof x = Ways.three();
         int[] due = {961, 15, 14, 8};
         for (int bend = -1; bend < 3; bend++) {
             Check.due("likely(" + bend + ")", x.likely(bend), due[bend + 1]);
         }
-        OnTheRoof fallen = Ways.threeFallen();
+        Roof fallen = Ways.threeFallen();
         int[] then = {0, 389, 383, 226};
         for (int bend = -1; bend < 3; bend++) {
             Check.due("likely(" + bend + ") if it fell", fallen.likely(bend), then[bend + 1]);
@@ -125,11 +125,11 @@ public final class FallsTest {
         Check.refused(fallen, -5, "likely(0) of nothing", () -> fallen.likely(0));
         Check.refused(fallen, -5, "likely(NONE) of nothing", () -> fallen.likely(-1));
         Check.refused(fallen, -2, "likely(3) of nothing", () -> fallen.likely(3));
-        Check.due("likely(NONE) without BENDS", new OnTheRoof().likely(-1), 1000);
+        Check.due("likely(NONE) without BENDS", new Roof().likely(-1), 1000);
     }
 
     private static void between() {
-        OnTheRoof x = Ways.three();
+        Roof x = Ways.three();
         Check.due("between(0, 0)", x.between(0, 0), 15);
         Check.due("between(0, 1)", x.between(0, 1), 29);
         Check.due("between(1, 2)", x.between(1, 2), 23);
@@ -139,7 +139,7 @@ public final class FallsTest {
         for (int[] w : wrong) {
             Check.refused(x, -2, "between " + w[0] + " " + w[1], () -> x.between(w[0], w[1]));
         }
-        OnTheRoof fallen = Ways.threeFallen();
+        Roof fallen = Ways.threeFallen();
         Check.due("all, if it fell", fallen.between(0, 2), 1000);
         fallen.sign(2, true, 100);
         Check.refused(fallen, -5, "between of nothing", () -> fallen.between(0, 1));
@@ -147,16 +147,16 @@ public final class FallsTest {
     }
 
     private static void half() {
-        OnTheRoof x = Ways.three();
+        Roof x = Ways.three();
         Check.due("half, mostly held", x.half(), -1);
-        OnTheRoof fallen = Ways.threeFallen();
+        Roof fallen = Ways.threeFallen();
         Check.due("half, if it fell", fallen.half(), 1);
         fallen.sign(2, true, 100);
         Check.due("half of nothing", fallen.half(), 0);
-        Check.due("half without BENDS", new OnTheRoof().half(), -1);
+        Check.due("half without BENDS", new Roof().half(), -1);
         Check.due("nothing was refused", x.status(12) + x.status(15), 0);
         // 10000 and 9900 of KIND 0 by PACE 1, then made 9900 both: the first is the half, just.
-        OnTheRoof even = Ways.even(2, 1);
+        Roof even = Ways.even(2, 1);
         even.ask(0, 1);
         even.bend(0, 0, 1, 0);
         even.sign(2, false, 100);
@@ -165,7 +165,7 @@ public final class FallsTest {
         even.sign(0, true, 1);
         Check.due("990 and 999", even.weight(1) - even.weight(0), 9);
         Check.due("less than half", even.half(), 1);
-        OnTheRoof just = new OnTheRoof();
+        Roof just = new Roof();
         just.bend(3, 9, 1, 0);
         just.bend(3, 9, 1, 0);
         just.sign(1, false, 100);
@@ -175,7 +175,7 @@ public final class FallsTest {
     }
 
     private static void few() {
-        OnTheRoof x = Ways.three();
+        Roof x = Ways.three();
         int[][] due = {{0, 0}, {1, 1}, {389, 1}, {390, 2}, {773, 2}, {774, 3}, {1000, 3}};
         for (int[] d : due) {
             Check.due("few(" + d[0] + ")", x.few(d[0]), d[1]);
@@ -187,24 +187,24 @@ public final class FallsTest {
         Check.due("few of nothing", x.few(1000), 0);
         Check.refused(x, -2, "few(-1)", () -> x.few(-1));
         Check.refused(x, -2, "few(1001)", () -> x.few(1001));
-        OnTheRoof zero = new OnTheRoof();
+        Roof zero = new Roof();
         zero.bend(0, 0, 1, 0);
         zero.bend(0, 9, 1, 0);
         Check.due("one has all", zero.few(1000), 1);
     }
 
     private static void asks() {
-        OnTheRoof x = Ways.three();
+        Roof x = Ways.three();
         Check.due("asks, mostly held", x.asks(), 2);
-        OnTheRoof fallen = Ways.threeFallen();
+        Roof fallen = Ways.threeFallen();
         Check.due("asks, if it fell", fallen.asks(), 0);
         fallen.look(0, 3);
         Check.due("asks, looked at 0", fallen.asks(), 1);
         fallen.sign(2, true, 100);
         Check.due("asks of nothing", fallen.asks(), 0);
-        OnTheRoof none = new OnTheRoof();
+        Roof none = new Roof();
         Check.refused(none, -5, "asks without BENDS", none::asks);
-        OnTheRoof flat = new OnTheRoof();
+        Roof flat = new Roof();
         flat.bend(0, 0, 1, 0);
         flat.bend(0, 9, 1, 0);
         flat.bend(0, 0, 1, 0);
@@ -212,7 +212,7 @@ public final class FallsTest {
     }
 
     private static void after() {
-        OnTheRoof x = Ways.three();
+        Roof x = Ways.three();
         Check.due("gone at 2", x.after(2, false, 100), 0);
         Check.due("seen at 0", x.after(0, true, 50), 968);
         Check.due("gone at 1", x.after(1, false, 20), 954);
@@ -224,7 +224,7 @@ public final class FallsTest {
         for (int[] w : wrong) {
             Check.refused(x, -2, "after " + w[0] + " " + w[1], () -> x.after(w[0], true, w[1]));
         }
-        OnTheRoof fallen = Ways.threeFallen();
+        Roof fallen = Ways.threeFallen();
         Check.refused(fallen, -5, "after of nothing", () -> fallen.after(2, true, 100));
         for (int i = 0; i < 7; i++) {
             fallen.sign(2, true, 100);
@@ -234,7 +234,7 @@ public final class FallsTest {
     }
 
     private static void whereAndLast() {
-        OnTheRoof x = Ways.three();
+        Roof x = Ways.three();
         Check.due("where", x.where(), 0);
         x.look(0, 1);
         Check.due("where, looked at 0", x.where(), 1);
@@ -246,14 +246,14 @@ public final class FallsTest {
         x.sign(1, true, 100);
         Check.due("where of nothing", x.where(), 0);
         Check.due("last of nothing", x.last(), -1);
-        OnTheRoof none = new OnTheRoof();
+        Roof none = new Roof();
         Check.due("last without BENDS", none.last(), -1);
         Check.refused(none, -5, "where without BENDS", none::where);
-        OnTheRoof flat = new OnTheRoof();
+        Roof flat = new Roof();
         flat.bend(0, 5, 1, 0);
         flat.bend(0, 0, 1, 0);
         Check.due("last above 0", flat.last(), 0);
-        OnTheRoof twice = new OnTheRoof();
+        Roof twice = new Roof();
         twice.bend(0, 0, 1, 0);
         twice.bend(0, 9, 1, 0);
         twice.bend(0, 9, 1, 0);
@@ -264,7 +264,7 @@ public final class FallsTest {
     }
 
     private static void worst() {
-        OnTheRoof x = Ways.three();
+        Roof x = Ways.three();
         Check.due("of several the first", x.worst(), 0);
         x.ask(0, 9);
         Check.due("by PACE 9", x.worst(), 1);
@@ -272,12 +272,12 @@ public final class FallsTest {
         Check.due("by PACE 1", x.worst(), 2);
         x.ask(2, 10);
         Check.due("all 0", x.worst(), 0);
-        OnTheRoof none = new OnTheRoof();
+        Roof none = new Roof();
         Check.refused(none, -5, "worst without BENDS", none::worst);
     }
 
     private static void refusals() {
-        OnTheRoof x = Ways.three();
+        Roof x = Ways.three();
         int[] bends = {-2, 3, MIN, MAX};
         for (int b : bends) {
             Check.refused(x, -2, "fall(" + b + ", 1)", () -> x.fall(b, 1));

@@ -21,7 +21,7 @@ public final class LooksTest {
     }
 
     private static void seconds() {
-        OnTheRoof x = Ways.three();
+        Roof x = Ways.three();
         int[] due = {11, 26, 101, 26, 63, 251, 7, 16, 61};
         for (int i = 0; i < 9; i++) {
             Check.due("seconds " + i, x.seconds(i / 3, 1 + i % 3), due[i]);
@@ -35,7 +35,7 @@ public final class LooksTest {
     }
 
     private static void found() {
-        OnTheRoof x = Ways.three();
+        Roof x = Ways.three();
         int[] due = {4500, 9000, 13500, 4432, 8865, 13297, 2619, 5239, 7858};
         for (int i = 0; i < 9; i++) {
             Check.due("found " + i, x.found(i / 3, 1 + i % 3), due[i]);
@@ -46,7 +46,7 @@ public final class LooksTest {
         Check.due("by the LOOKS", x.found(0, 3), 2700);
     }
 
-    private static void best(OnTheRoof x, int seconds, int found, int... row) {
+    private static void best(Roof x, int seconds, int found, int... row) {
         Check.due("best(" + seconds + ", NONE)", x.best(seconds, -1), found);
         for (int i = 0; i < row.length; i++) {
             Check.due("best(" + seconds + ", " + i + ")", x.best(seconds, i), row[i]);
@@ -54,7 +54,7 @@ public final class LooksTest {
     }
 
     private static void bestFound() {
-        OnTheRoof x = Ways.three();
+        Roof x = Ways.three();
         best(x, 0, 0, 0, 0, 0);
         best(x, 9, 0, 0, 0, 0);
         best(x, 10, 2619, 0, 0, 1);
@@ -70,7 +70,7 @@ public final class LooksTest {
     }
 
     private static void bestRow() {
-        OnTheRoof x = Ways.three();
+        Roof x = Ways.three();
         best(x, 60, 14239, 2, 0, 2);
         best(x, 70, 16051, 2, 1, 1);
         best(x, 80, 18671, 2, 1, 2);
@@ -81,7 +81,7 @@ public final class LooksTest {
     }
 
     private static void bestIsFirst() {
-        OnTheRoof x = new OnTheRoof();
+        Roof x = new Roof();
         x.ask(0, 1);
         x.bend(3, 9, 10, 0);
         x.bend(3, 9, 10, 0);
@@ -94,13 +94,13 @@ public final class LooksTest {
         best(x, 20, 23520, 2, 2);
         best(x, 30, 29400, 2, 3);
         best(x, 40, 35280, 3, 3);
-        OnTheRoof none = new OnTheRoof();
+        Roof none = new Roof();
         none.bend(0, 0, 5, 0);
         best(none, 9000, 0, 0);
     }
 
     private static void bestAtTheEdges() {
-        OnTheRoof x = new OnTheRoof();
+        Roof x = new Roof();
         x.bend(3, 9, 999, 0);
         Check.due("FELL", x.weight(0), 72000);
         best(x, 99, 0, 0);
@@ -109,7 +109,7 @@ public final class LooksTest {
         best(x, 250, 43200, 2);
         best(x, 999, 43200, 2);
         best(x, 1000, 64800, 3);
-        OnTheRoof most = new OnTheRoof();
+        Roof most = new Roof();
         most.ask(0, 9);
         for (int i = 0; i < 14; i++) {
             most.bend(3, 9, 999, 0);
@@ -120,13 +120,13 @@ public final class LooksTest {
             looks += new int[] {0, 10, 25, 100}[most.best(9000, i)];
         }
         Check.that("in 900 tens", looks <= 900 && looks > 890);
-        OnTheRoof none = new OnTheRoof();
+        Roof none = new Roof();
         best(none, 0, 0);
         best(none, 9000, 0);
     }
 
     private static void next() {
-        OnTheRoof x = Ways.three();
+        Roof x = Ways.three();
         Check.due("next", x.next(), 1);
         x.look(0, 1);
         Check.due("next, looked at 0", x.next(), 21);
@@ -136,8 +136,8 @@ public final class LooksTest {
         x.sign(1, true, 100);
         Check.due("nothing to be found", x.next(), -1);
         Check.due("that isn't refused", x.status(15), 0);
-        Check.due("without BENDS", new OnTheRoof().next(), -1);
-        OnTheRoof alike = new OnTheRoof();
+        Check.due("without BENDS", new Roof().next(), -1);
+        Roof alike = new Roof();
         alike.ask(0, 1);
         alike.bend(3, 9, 4, 0);
         alike.bend(3, 9, 4, 0);
@@ -148,22 +148,22 @@ public final class LooksTest {
     }
 
     private static void soonest() {
-        OnTheRoof x = Ways.three();
+        Roof x = Ways.three();
         int[][] due = {{0, 0}, {1, 10}, {2619, 10}, {2620, 20}, {5239, 20}, {5240, 30}, {9000, 30}, {9001, 40},
             {14239, 50}, {34655, 440}, {34656, -1}, {1000000, -1}};
         for (int[] d : due) {
             Check.due("soonest(" + d[0] + ")", x.soonest(d[0]), d[1]);
         }
         Check.due("nothing was refused", x.status(12) + x.status(15), 0);
-        Check.due("without BENDS", new OnTheRoof().soonest(0), 0);
-        OnTheRoof far = Ways.even(9, 999);
+        Check.due("without BENDS", new Roof().soonest(0), 0);
+        Roof far = Ways.even(9, 999);
         int all = far.best(9000, -1);
         Check.due("in all the time", far.soonest(all), 9000);
         Check.due("one more", far.soonest(all + 1), -1);
     }
 
     private static void order() {
-        OnTheRoof x = Ways.three();
+        Roof x = Ways.three();
         int[] due = {1, 21, 1, 21};
         for (int i = 0; i < due.length; i++) {
             Check.due("order(" + i + ")", x.order(i), due[i]);
@@ -172,7 +172,7 @@ public final class LooksTest {
     }
 
     private static void vain() {
-        OnTheRoof x = Ways.three();
+        Roof x = Ways.three();
         int[] due = {1000000, 995500, 992880};
         for (int i = 0; i < due.length; i++) {
             Check.due("vain(" + i + ")", x.vain(i), due[i]);
@@ -181,7 +181,7 @@ public final class LooksTest {
     }
 
     private static void noNext() {
-        OnTheRoof x = new OnTheRoof();
+        Roof x = new Roof();
         x.bend(0, 1, 999, 0);
         x.sign(0, false, 100);
         int looks = 0;
@@ -196,14 +196,14 @@ public final class LooksTest {
     }
 
     private static void others() {
-        OnTheRoof x = Ways.three();
+        Roof x = Ways.three();
         Check.due("others(0)", x.others(0), 0);
         Check.due("others(1)", x.others(1), 16269);
         Check.due("others(2)", x.others(2), 20111);
         x.sign(2, false, 100);
         x.look(2, 1);
         Check.due("by SIGNS and LOOKS", x.others(1), 150 + 7387 + 6112);
-        OnTheRoof slow = new OnTheRoof();
+        Roof slow = new Roof();
         slow.bend(0, 5, 1, 1);
         Check.due("as long as a whole one goes", slow.others(300), 15000 - left(15000, 300));
         Check.due("the most minutes", Ways.threeFallen().others(300), 15000 - leftOf(15000, 10, 300) + 14775 - 1 + 8732);
@@ -222,7 +222,7 @@ public final class LooksTest {
     }
 
     private static void refusals() {
-        OnTheRoof x = Ways.three();
+        Roof x = Ways.three();
         int[] bends = {-1, 3, MIN, MAX};
         for (int b : bends) {
             Check.refused(x, -2, "seconds(" + b + ", 1)", () -> x.seconds(b, 1));

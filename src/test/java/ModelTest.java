@@ -11,7 +11,7 @@ public final class ModelTest {
     private static final int CALLS = 512 - 60;
 
     private final Random random;
-    private final OnTheRoof x = new OnTheRoof();
+    private final Roof x = new Roof();
     private final Model m = new Model();
     private Model kept;
 

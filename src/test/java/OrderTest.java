@@ -20,7 +20,7 @@ public final class OrderTest {
     }
 
     private static void badAheadOfFull() {
-        OnTheRoof x = full();
+        Roof x = full();
         Check.refused(x, -6, "bend, FULL", () -> x.bend(0, 0, 1, 0));
         Check.refused(x, -6, "bend of the most, FULL", () -> x.bend(5, 9, 999, 1000));
         Check.refused(x, -2, "bend, BAD KIND and FULL", () -> x.bend(6, 0, 1, 0));
@@ -39,23 +39,23 @@ public final class OrderTest {
     }
 
     private static void badAheadOfFullAheadOfStuck() {
-        OnTheRoof x = full();
+        Roof x = full();
         Check.due("all WEIGHTS", x.status(7), 0);
         Check.refused(x, -6, "after, FULL and STUCK", () -> x.after(13, true, 100));
         Check.refused(x, -2, "after, BAD BEND, FULL and STUCK", () -> x.after(14, true, 100));
         Check.refused(x, -2, "after, BAD BEND NONE, FULL and STUCK", () -> x.after(-1, true, 100));
         Check.refused(x, -2, "after, BAD SURE, FULL and STUCK", () -> x.after(13, true, 101));
-        OnTheRoof y = stuck();
+        Roof y = stuck();
         Check.refused(y, -5, "after, STUCK", () -> y.after(2, true, 100));
         Check.refused(y, -2, "after, BAD BEND and STUCK", () -> y.after(3, true, 100));
         Check.refused(y, -2, "after, BAD SURE and STUCK", () -> y.after(2, true, -1));
-        OnTheRoof z = Ways.threeFallen();
+        Roof z = Ways.threeFallen();
         Check.refused(z, -5, "after, STUCK by the SIGN more", () -> z.after(2, true, 100));
         Check.due("after, not STUCK by one at a BEND ahead", z.after(1, true, 100), 0);
     }
 
     private static void badAheadOfStuck() {
-        OnTheRoof x = stuck();
+        Roof x = stuck();
         int[] all = {-1, 0, 2};
         for (int bend : all) {
             Check.refused(x, -5, "likely, STUCK", () -> x.likely(bend));
@@ -69,7 +69,7 @@ public final class OrderTest {
     }
 
     private static void sets() {
-        OnTheRoof x = shelves();
+        Roof x = shelves();
         Check.refused(x, -2, "set, BAD SHELF and i", () -> x.set(8, 40, 1));
         Check.refused(x, -3, "set, OTHER and BAD i", () -> x.set(1, 40, 1));
         Check.refused(x, -3, "set, OTHER", () -> x.set(1, 0, 1));
@@ -79,7 +79,7 @@ public final class OrderTest {
     }
 
     private static void copies() {
-        OnTheRoof x = shelves();
+        Roof x = shelves();
         int[][] bad = {{8, 1}, {1, 8}, {8, 2}, {2, -1}, {8, 0}, {0, 8}, {-1, -1}};
         for (int[] s : bad) {
             Check.refused(x, -2, "copy, BAD SHELF and whatever" + Arrays.toString(s), () -> x.copy(s[0], s[1], 9, 9, 9));
@@ -97,7 +97,7 @@ public final class OrderTest {
         Check.refused(x, -2, "copy, BAD n", () -> x.copy(0, 0, 0, 0, 3));
         for (int sort = 0; sort <= 4; sort++) {
             for (int of = 0; of <= 4; of++) {
-                OnTheRoof y = new OnTheRoof();
+                Roof y = new Roof();
                 y.row(0, sort, 1);
                 y.row(1, of, 1);
                 if (sort == of) {
@@ -111,7 +111,7 @@ public final class OrderTest {
     }
 
     private static void says() {
-        OnTheRoof x = shelves();
+        Roof x = shelves();
         Check.refused(x, -2, "says, BAD SHELF and KIND", () -> x.says(8, 6));
         Check.refused(x, -2, "says, BAD KIND and a ROW", () -> x.says(0, 6));
         Check.refused(x, -2, "says, BAD KIND and a BEND", () -> x.says(1, -1));
@@ -122,12 +122,12 @@ public final class OrderTest {
     }
 
     private interface Told {
-        long call(OnTheRoof x, int s, int n);
+        long call(Roof x, int s, int n);
     }
 
     /** What judge(), apart() and search() have in common: BAD SHELF, n; OTHER; NOTHING; BAD: fewer elements. */
     private static void told(String call, Told made) {
-        OnTheRoof x = shelves();
+        Roof x = shelves();
         int[][] bad = {{8, 0}, {-1, 0}, {8, 41}, {0, 41}, {1, 41}, {2, 41}, {0, -1}, {1, -1}, {2, -1}};
         for (int[] b : bad) {
             Check.refused(x, -2, call + ", BAD, whatever the SHELF holds", () -> made.call(x, b[0], b[1]));
@@ -141,14 +141,14 @@ public final class OrderTest {
 
     private static void judges() {
         told("judge", (x, s, n) -> x.judge(s, n));
-        OnTheRoof x = shelves();
+        Roof x = shelves();
         Check.due("judge, as many elements", x.judge(0, 2), 1);
         Check.due("that isn't refused", x.status(12) + x.status(15), 0);
     }
 
     private static void aparts() {
         told("apart", (x, s, n) -> x.apart(s, n));
-        OnTheRoof x = shelves();
+        Roof x = shelves();
         Check.refused(x, -5, "apart, WRONG", () -> x.apart(0, 2));
         Check.due("apart, not WRONG yet", x.apart(0, 1), 0);
     }
@@ -156,7 +156,7 @@ public final class OrderTest {
     private static void searches() {
         told("search, SECONDS", (x, s, n) -> x.search(s, n, 0));
         told("search, FOUND", (x, s, n) -> x.search(s, n, 1));
-        OnTheRoof x = shelves();
+        Roof x = shelves();
         int[][] bad = {{0, 0, 2}, {0, 0, -1}, {1, 0, 2}, {2, 0, 2}, {0, 2, 2}, {0, 3, 2}, {1, 41, 2}, {8, 41, 2}};
         for (int[] b : bad) {
             Check.refused(x, -2, "search, BAD what", () -> x.search(b[0], b[1], b[2]));
@@ -167,12 +167,12 @@ public final class OrderTest {
     }
 
     private static void onlyStuck() {
-        OnTheRoof x = new OnTheRoof();
+        Roof x = new Roof();
         Check.refused(x, -5, "asks without BENDS", x::asks);
         Check.refused(x, -5, "where without BENDS", x::where);
         Check.refused(x, -5, "worst without BENDS", x::worst);
         Check.refused(x, -5, "back without an image", x::back);
-        OnTheRoof one = stuck();
+        Roof one = stuck();
         Check.due("asks with BENDS, all WEIGHTS 0", one.asks(), 0);
         Check.due("where with BENDS, all WEIGHTS 0", one.where(), 0);
         Check.due("worst with BENDS, all WEIGHTS 0", one.worst(), 0);
@@ -181,7 +181,7 @@ public final class OrderTest {
 
     /** What the calls that ask nothing can't tell: THE TAPE's bytes, how long ROWS are, and what is kept. */
     private static void tapeAndImageStay() {
-        OnTheRoof x = Ways.three();
+        Roof x = Ways.three();
         x.row(0, 2, 3);
         x.image();
         x.bend(0, 1, 1, 1);
@@ -202,7 +202,7 @@ public final class OrderTest {
     }
 
     private static void eachIsCounted() {
-        OnTheRoof x = shelves();
+        Roof x = shelves();
         for (int i = 1; i <= 99; i++) {
             x.worth(0, 0, -1);
             x.set(1, 0, 0);
@@ -214,7 +214,7 @@ public final class OrderTest {
         for (int i = 0; i < 5; i++) {
             Check.due("refusals " + (-2 - i), x.status(12 + i), due[i]);
         }
-        OnTheRoof y = full();
+        Roof y = full();
         for (int i = 0; i < 200; i++) {
             y.feed(1);
         }
@@ -225,8 +225,8 @@ public final class OrderTest {
     }
 
     /** As many BENDS, SIGNS, CALLS and bytes as can be; all WEIGHTS are 0. */
-    private static OnTheRoof full() {
-        OnTheRoof x = Ways.even(14, 5);
+    private static Roof full() {
+        Roof x = Ways.even(14, 5);
         x.sign(13, true, 100);
         for (int i = 1; i < 8; i++) {
             x.sign(13, false, 100);
@@ -241,15 +241,15 @@ public final class OrderTest {
     }
 
     /** Three BENDS; all WEIGHTS are 0. */
-    private static OnTheRoof stuck() {
-        OnTheRoof x = Ways.threeFallen();
+    private static Roof stuck() {
+        Roof x = Ways.threeFallen();
         x.sign(2, true, 100);
         return x;
     }
 
     /** SHELF 0 holds two ints, 1 and 0, which are no pieces and no looks; 1 a BEND, 2 NOTHING, 3 a ROW of longs. */
-    private static OnTheRoof shelves() {
-        OnTheRoof x = Ways.three();
+    private static Roof shelves() {
+        Roof x = Ways.three();
         Ways.tell(x, 0, 1, 0);
         x.show(1, 0);
         x.row(3, 3, 2);

@@ -18,7 +18,7 @@ public final class ShelvesTest {
     }
 
     private static void rows() {
-        OnTheRoof x = Ways.three();
+        Roof x = Ways.three();
         for (int sort = 0; sort <= 4; sort++) {
             Check.due("row(" + sort + ")", x.row(sort, sort, 3), 1);
             Check.due("holds", x.holds(sort), sort);
@@ -48,7 +48,7 @@ public final class ShelvesTest {
     }
 
     private static void sets() {
-        OnTheRoof x = Ways.three();
+        Roof x = Ways.three();
         x.row(0, 2, 3);
         x.show(1, 0);
         Check.due("set", x.set(0, 2, -7), 1);
@@ -65,7 +65,7 @@ public final class ShelvesTest {
     }
 
     private static void keepsLowestBits() {
-        OnTheRoof x = new OnTheRoof();
+        Roof x = new Roof();
         long v = 0x123456789ABCDEF0L;
         long[] due = {(byte) 0xF0, (short) 0xDEF0, 0x9ABCDEF0, v, 1};
         for (int sort = 0; sort <= 4; sort++) {
@@ -82,7 +82,7 @@ public final class ShelvesTest {
     }
 
     private static void copies() {
-        OnTheRoof x = new OnTheRoof();
+        Roof x = new Roof();
         Ways.tell(x, 0, 1, 2, 3, 4, 5);
         x.row(1, 2, 4);
         Check.due("copy", x.copy(0, 1, 2, 1, 3), 3);
@@ -97,7 +97,7 @@ public final class ShelvesTest {
     }
 
     private static void copiesWithinOne() {
-        OnTheRoof x = new OnTheRoof();
+        Roof x = new Roof();
         Ways.tell(x, 3, 1, 2, 3, 4, 5);
         Check.due("copy up", x.copy(3, 3, 0, 1, 4), 4);
         int[] up = {1, 1, 2, 3, 4};
@@ -112,7 +112,7 @@ public final class ShelvesTest {
     }
 
     private static void copyRefusals() {
-        OnTheRoof x = Ways.three();
+        Roof x = Ways.three();
         Ways.tell(x, 0, 1, 2, 3);
         Ways.tell(x, 1, 4, 5);
         x.row(2, 3, 3);
@@ -134,7 +134,7 @@ public final class ShelvesTest {
     }
 
     private static void elementsAndHolds() {
-        OnTheRoof x = Ways.three();
+        Roof x = Ways.three();
         Ways.tell(x, 0, 7);
         x.show(1, 2);
         Check.due("element", x.element(0, 0), 7);
@@ -156,7 +156,7 @@ public final class ShelvesTest {
     }
 
     private static void shows() {
-        OnTheRoof x = Ways.three();
+        Roof x = Ways.three();
         Check.due("show", x.show(0, 0), 1);
         Check.due("holds", x.holds(0), 10);
         Check.due("show another", x.show(0, 2), 1);
@@ -174,8 +174,8 @@ public final class ShelvesTest {
     }
 
     /** By PACE 2, dry: FALL 10, 8, 18, 12 * 2, 38, 9; as a is 5, 2, 4, 4, 4, 9. */
-    private static OnTheRoof allKinds() {
-        OnTheRoof x = new OnTheRoof();
+    private static Roof allKinds() {
+        Roof x = new Roof();
         x.ask(0, 2);
         x.bend(0, 5, 11, 1);
         x.bend(1, 2, 12, 2);
@@ -190,7 +190,7 @@ public final class ShelvesTest {
     }
 
     private static void says() {
-        OnTheRoof x = allKinds();
+        Roof x = allKinds();
         for (int i = 0; i < 6; i++) {
             Check.due("as a BEND, YARDS", x.says(i, 0), 11 + i);
         }
@@ -208,7 +208,7 @@ public final class ShelvesTest {
     }
 
     private static void saysRefusals() {
-        OnTheRoof x = allKinds();
+        Roof x = allKinds();
         x.row(6, 2, 1);
         Check.refused(x, -2, "says SHELF 8", () -> x.says(8, 0));
         Check.refused(x, -2, "says SHELF -1", () -> x.says(-1, 0));

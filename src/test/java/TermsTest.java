@@ -35,22 +35,22 @@ public final class TermsTest {
         Check.end();
     }
 
-    private static OnTheRoof one(int kind, int a, int yards, int people) {
-        OnTheRoof x = new OnTheRoof();
+    private static Roof one(int kind, int a, int yards, int people) {
+        Roof x = new Roof();
         x.bend(kind, a, yards, people);
         return x;
     }
 
     /** So many bends alike. */
-    private static OnTheRoof many(int bends, int kind, int a, int yards, int people) {
-        OnTheRoof x = new OnTheRoof();
+    private static Roof many(int bends, int kind, int a, int yards, int people) {
+        Roof x = new Roof();
         for (int i = 0; i < bends; i++) {
             x.bend(kind, a, yards, people);
         }
         return x;
     }
 
-    private static void settle(OnTheRoof x, int pace, int wet, int grip) {
+    private static void settle(Roof x, int pace, int wet, int grip) {
         x.ask(0, pace);
         x.ask(1, wet);
         x.ask(2, grip);
@@ -63,7 +63,7 @@ public final class TermsTest {
     private static int[] falls(int a, int pace, int wet, int grip) {
         int[] falls = new int[6];
         for (int kind = 0; kind < 6; kind++) {
-            OnTheRoof x = one(kind, a, 1, 0);
+            Roof x = one(kind, a, 1, 0);
             settle(x, pace, wet, grip);
             falls[kind] = x.bendOf(0, 5);
             Check.due("fall and bendOf", x.fall(0, pace), falls[kind]);
@@ -91,7 +91,7 @@ public final class TermsTest {
     }
 
     private static void whatHoldsIsCut() {
-        OnTheRoof x = many(14, 3, 9, 1, 0);
+        Roof x = many(14, 3, 9, 1, 0);
         settle(x, 9, 1, 0);
         int holds = 1000000;
         int[] last = {1433, 2735};
@@ -101,7 +101,7 @@ public final class TermsTest {
             holds -= falls;
         }
         dueAll("the last, and HELD", new int[] {x.fell(13, 9), x.fell(-1, 9)}, last);
-        OnTheRoof y = one(0, 1, 1, 0);
+        Roof y = one(0, 1, 1, 0);
         y.bend(3, 0, 1, 0);
         y.ask(0, 1);
         // 999000 times 2 is 1998000: nothing is cut; 997002 times 1 is, to 997.
@@ -110,7 +110,7 @@ public final class TermsTest {
                 996005);
     }
 
-    private static int[] weights(OnTheRoof x) {
+    private static int[] weights(Roof x) {
         int[] weights = new int[x.status(0) + 1];
         for (int i = 0; i < weights.length; i++) {
             weights[i] = x.weight(i < weights.length - 1 ? i : -1);
@@ -122,14 +122,14 @@ public final class TermsTest {
         int[][] due = {{0, 14775, 8732, 961493}, {0, 0, 8732, 961493}, {0, 0, 0, 961493}, {15000, 0, 0, 0},
             {15000, 14775, 0, 0}, {15000, 14775, 8732, 0}};
         for (int i = 0; i < 6; i++) {
-            OnTheRoof x = Ways.three();
+            Roof x = Ways.three();
             boolean is = i < 3;
             x.sign(i % 3, is, 0);
             dueAll("SURE 0 changes nothing", weights(x), 15000, 14775, 8732, 961493);
             x.sign(i % 3, is, 100);
             dueAll("SURE 100 leaves nothing, IS " + is + " at " + i % 3, weights(x), due[i]);
         }
-        OnTheRoof y = Ways.three();
+        Roof y = Ways.three();
         y.sign(1, true, 1);
         dueAll("SURE 1", weights(y), 14850, 14627, 8732, 961493);
         y.anew();
@@ -138,7 +138,7 @@ public final class TermsTest {
     }
 
     private static void signsInOrder() {
-        OnTheRoof x = one(0, 1, 1, 0);
+        Roof x = one(0, 1, 1, 0);
         x.ask(0, 1);
         x.sign(0, true, 67);
         x.sign(0, true, 50);
@@ -155,11 +155,11 @@ public final class TermsTest {
 
     /** 14775 of SURE 50 is 7387 (cut), of MISS 70 is 5170 (cut); the other way about it would be 5171. */
     private static void looksBehindSigns() {
-        OnTheRoof x = Ways.three();
+        Roof x = Ways.three();
         x.look(1, 1);
         x.sign(1, true, 50);
         Check.due("a LOOK ahead of a SIGN", x.weight(1), 5170);
-        OnTheRoof y = Ways.three();
+        Roof y = Ways.three();
         y.sign(1, true, 50);
         y.look(1, 1);
         Check.due("a LOOK behind a SIGN", y.weight(1), 5170);
@@ -167,7 +167,7 @@ public final class TermsTest {
     }
 
     private static void allWeightsAreOne() {
-        OnTheRoof x = weightOfOne();
+        Roof x = weightOfOne();
         dueAll("few of little", new int[] {x.few(0), x.few(1), x.few(1000)}, 0, 1, 1);
         x.sign(0, false, 100);
         Check.due("all WEIGHTS", x.status(7), 1);
@@ -178,7 +178,7 @@ public final class TermsTest {
 
     private static void halvesAndAsks() {
         // By PACE 1: FELL 1000 of KIND 0, a 1; the rest is 999000.
-        OnTheRoof x = one(0, 1, 1, 0);
+        Roof x = one(0, 1, 1, 0);
         x.ask(0, 1);
         Check.due("HELD is more", x.half(), -1);
         Check.due("one BEND is nearest", x.asks(), 0);
@@ -192,7 +192,7 @@ public final class TermsTest {
         x.sign(1, false, 1);
         // HELD 989.
         dueAll("a little more", new int[] {x.weight(-1), x.half(), x.asks()}, 989, 0, 0);
-        OnTheRoof even = one(0, 1, 1, 0);
+        Roof even = one(0, 1, 1, 0);
         even.ask(0, 1);
         even.bend(0, 0, 1, 0);
         even.bend(0, 1, 1, 0);
@@ -205,7 +205,7 @@ public final class TermsTest {
         // 9, 0 and 9.
         dueAll("just the half, of several the first", new int[] {even.weight(0), even.weight(2), even.half(), even.asks()},
                 9, 9, 0, 0);
-        OnTheRoof many = many(14, 0, 9, 1, 0);
+        Roof many = many(14, 0, 9, 1, 0);
         many.sign(13, false, 100);
         int up = 0;
         int bend = 0;
@@ -222,7 +222,7 @@ public final class TermsTest {
     private static void missIsCut() {
         int[][] due = {{70, 49, 34, 23, 16, 11, 7, 4, 2, 1, 0, 0}, {40, 16, 6, 2, 0, 0}, {10, 1, 0, 0}};
         for (int look = 1; look <= 3; look++) {
-            OnTheRoof x = one(0, 9, 1, 0);
+            Roof x = one(0, 9, 1, 0);
             Check.due("MISS at first", x.bendOf(0, 4), 100);
             Check.due("looked at, at first", x.status(11), 0);
             for (int miss : due[look - 1]) {
@@ -239,13 +239,13 @@ public final class TermsTest {
         int[][] due = {{1, 1, 1, 2}, {3, 1, 1, 4}, {4, 1, 2, 5}, {9, 1, 3, 10}, {10, 2, 3, 11}, {19, 2, 5, 20},
             {20, 3, 6, 21}, {998, 100, 250, 999}, {999, 100, 250, 1000}};
         for (int[] d : due) {
-            OnTheRoof x = one(0, 0, d[0], 0);
+            Roof x = one(0, 0, d[0], 0);
             dueAll("SECONDS by YARDS " + d[0], new int[] {x.seconds(0, 1), x.seconds(0, 2), x.seconds(0, 3)}, d[1], d[2],
                     d[3]);
         }
     }
 
-    private static void best(OnTheRoof x, int seconds, int found, int... row) {
+    private static void best(Roof x, int seconds, int found, int... row) {
         int[] got = new int[row.length];
         for (int i = 0; i < row.length; i++) {
             got[i] = x.best(seconds, i);
@@ -256,24 +256,24 @@ public final class TermsTest {
 
     private static void bestRoundsEachLook() {
         // FOOT takes 10 seconds, then 11; 9 and 10 YARDS.
-        OnTheRoof ten = one(0, 9, 9, 0);
+        Roof ten = one(0, 9, 9, 0);
         best(ten, 9, 0, 0);
         best(ten, 10, 24300, 3);
-        OnTheRoof eleven = one(0, 9, 10, 0);
+        Roof eleven = one(0, 9, 10, 0);
         best(eleven, 11, 16200, 2);
         best(eleven, 19, 16200, 2);
         best(eleven, 20, 24300, 3);
         Check.due("ten are enough", ten.soonest(24300), 10);
         Check.due("eleven take twenty", eleven.soonest(24300), 20);
         // Each look of 2 seconds takes ten: two of them twenty.
-        OnTheRoof two = one(0, 9, 1, 0);
+        Roof two = one(0, 9, 1, 0);
         two.bend(0, 9, 1, 0);
         best(two, 10, 24300, 3, 0);
         best(two, 19, 24300, 3, 0);
         best(two, 20, 47943, 3, 3);
         best(two, 9000, 47943, 3, 3);
         // FOOT takes 1000 at 999 YARDS: nine of them 9000.
-        OnTheRoof far = many(9, 0, 1, 999, 0);
+        Roof far = many(9, 0, 1, 999, 0);
         Check.due("nine on FOOT", far.soonest(far.best(9000, -1)), 9000);
         Check.due("more than that", far.soonest(far.best(9000, -1) + 1), -1);
         Check.due("nothing was refused", far.status(12), 0);
@@ -281,16 +281,16 @@ public final class TermsTest {
 
     /** Of WEIGHTS that are alike the last are looked at, as 0 comes ahead of 1. */
     private static void bestTakesTheFirst() {
-        OnTheRoof y = many(2, 3, 9, 10, 0);
+        Roof y = many(2, 3, 9, 10, 0);
         y.ask(0, 1);
         y.sign(0, true, 2);
         Check.due("alike", y.weight(0), y.weight(1));
         best(y, 10, 11760, 0, 2);
         best(y, 20, 23520, 2, 2);
         best(y, 30, 29400, 2, 3);
-        OnTheRoof none = many(14, 0, 0, 1, 0);
+        Roof none = many(14, 0, 0, 1, 0);
         best(none, 9000, 0, 0, 0, 0, 0, 0, 0, 0, 0, 0, 0, 0, 0, 0, 0);
-        OnTheRoof all = many(14, 0, 9, 1, 0);
+        Roof all = many(14, 0, 9, 1, 0);
         int found = 0;
         for (int i = 0; i < 14; i++) {
             found += all.found(i, 3);
@@ -299,12 +299,12 @@ public final class TermsTest {
         Check.that("not in 130", all.best(130, -1) < found);
         best(all, 10, 24300, 3, 0, 0, 0, 0, 0, 0, 0, 0, 0, 0, 0, 0, 0);
         // WEIGHT 1: nothing is FOUND by any look, as 30, 60 and 90 of 100 are cut.
-        OnTheRoof least = weightOfOne();
+        Roof least = weightOfOne();
         best(least, 9000, 0, 0);
     }
 
-    private static OnTheRoof weightOfOne() {
-        OnTheRoof x = one(0, 1, 1, 1000);
+    private static Roof weightOfOne() {
+        Roof x = one(0, 1, 1, 1000);
         x.ask(0, 1);
         x.sign(0, true, 99);
         x.sign(0, true, 90);
@@ -314,7 +314,7 @@ public final class TermsTest {
 
     private static void nextTakesTheFirst() {
         // YARDS 5: DRIVE takes 1, SLOW 2, FOOT 6 seconds; 30 by 1 are as many as 60 by 2.
-        OnTheRoof x = many(2, 3, 9, 5, 0);
+        Roof x = many(2, 3, 9, 5, 0);
         x.ask(0, 1);
         x.sign(0, true, 2);
         Check.due("alike", x.weight(0), x.weight(1));
@@ -322,14 +322,14 @@ public final class TermsTest {
         x.look(0, 1);
         Check.due("the other then", x.next(), 11);
         // YARDS 3: SLOW takes 1 second too, and finds more; FOOT takes 4.
-        OnTheRoof near = one(3, 9, 3, 0);
+        Roof near = one(3, 9, 3, 0);
         Check.due("SLOW in as many seconds", near.next(), 2);
         // YARDS 1: FOOT takes 2.
         Check.due("not FOOT in twice as many", one(3, 9, 1, 0).next(), 2);
-        OnTheRoof last = many(13, 0, 0, 1, 0);
+        Roof last = many(13, 0, 0, 1, 0);
         last.bend(0, 9, 999, 0);
         Check.due("the last of 14", last.next(), 131);
-        OnTheRoof least = weightOfOne();
+        Roof least = weightOfOne();
         Check.due("by none more than 0", least.next(), -1);
         Check.due("no look then", least.order(0), -1);
         Check.due("nor behind 40", least.order(40), -1);
@@ -339,7 +339,7 @@ public final class TermsTest {
 
     /** WEIGHT 9 at 392 YARDS: 2 in 40 seconds and 5 in 99, which is more, but both are 50 of 1000, cut. */
     private static void nextIsCut() {
-        OnTheRoof x = one(5, 1, 392, 0);
+        Roof x = one(5, 1, 392, 0);
         x.sign(0, true, 99);
         x.sign(0, true, 10);
         dueAll("FOUND", new int[] {x.weight(0), x.found(0, 1), x.found(0, 2), x.found(0, 3)}, 9, 2, 5, 8);
@@ -349,8 +349,8 @@ public final class TermsTest {
 
     /** The looks that order() and vain() tell are those that one makes by NEXT. */
     private static void nextOfMany() {
-        OnTheRoof x = many(14, 0, 9, 40, 0);
-        OnTheRoof made = many(14, 0, 9, 40, 0);
+        Roof x = many(14, 0, 9, 40, 0);
+        Roof made = many(14, 0, 9, 40, 0);
         for (int i = 0; i <= 40; i++) {
             Check.due("vain(" + i + ")", x.vain(i), made.status(7));
             int next = made.next();
@@ -362,7 +362,7 @@ public final class TermsTest {
     }
 
     private static void hearsAtTheEdges() {
-        OnTheRoof x = Ways.three();
+        Roof x = Ways.three();
         x.call(0, 1, 100);
         x.call(0, 1, 50);
         x.call(2, 1, 100);
@@ -375,7 +375,7 @@ public final class TermsTest {
         Check.due("as many CALLS as can be", x.hears(5), 8732);
         x.sign(2, true, 100);
         Check.due("nothing to be heard of", x.hears(5), 0);
-        OnTheRoof far = many(14, 0, 9, 1, 0);
+        Roof far = many(14, 0, 9, 1, 0);
         far.call(13, 1, 100);
         Check.due("all BENDS", far.hears(0), 1000000 - far.weight(-1));
         far.call(12, 1, 100);
@@ -383,14 +383,14 @@ public final class TermsTest {
     }
 
     private static void ringsTakesTheLeast() {
-        OnTheRoof x = Ways.three();
+        Roof x = Ways.three();
         Check.due("no CALLS", x.rings(999), 0);
         x.call(0, 2, 0);
         x.call(0, 2, 100);
         x.call(0, 2, 100);
         dueAll("the least as bits", new int[] {x.rings(0), x.rings(1), x.rings(2), x.rings(3), x.rings(4), x.rings(999)},
                 0, 0, 2, 2, 6, 6);
-        OnTheRoof all = many(6, 0, 9, 1, 0);
+        Roof all = many(6, 0, 9, 1, 0);
         for (int i = 0; i < 6; i++) {
             all.call(i, 99, 100);
         }
@@ -404,21 +404,21 @@ public final class TermsTest {
     }
 
     private static void othersAtTheEdges() {
-        OnTheRoof x = one(0, 5, 1, 1000);
+        Roof x = one(0, 5, 1, 1000);
         dueAll("PEOPLE 1000", new int[] {x.others(0), x.others(1), x.others(2), x.others(300)}, 0, 15000, 15000, 15000);
-        OnTheRoof none = one(0, 5, 1, 0);
+        Roof none = one(0, 5, 1, 0);
         dueAll("PEOPLE 0", new int[] {none.others(0), none.others(1), none.others(300)}, 0, 0, 0);
-        OnTheRoof few = one(0, 5, 1, 1);
+        Roof few = one(0, 5, 1, 1);
         dueAll("PEOPLE 1, cut minute by minute", new int[] {few.others(1), few.others(2), few.others(3), few.others(68)},
                 15, 29, 43, 953);
-        OnTheRoof most = one(0, 5, 1, 999);
+        Roof most = one(0, 5, 1, 999);
         dueAll("PEOPLE 999", new int[] {most.others(1), most.others(2), most.others(300)}, 14985, 14999, 14999);
         Check.due("a WEIGHT of 1, PEOPLE 1000", weightOfOne().others(1), 1);
-        Check.due("without BENDS", new OnTheRoof().others(300), 0);
+        Check.due("without BENDS", new Roof().others(300), 0);
     }
 
     private static void fastAndDroveAtTheEdges() {
-        OnTheRoof x = one(3, 9, 1, 0);
+        Roof x = one(3, 9, 1, 0);
         for (int pace = 1; pace <= 9; pace++) {
             int held = x.fell(-1, pace);
             Check.due("as much as by PACE " + pace, x.fast(held), pace);
@@ -428,7 +428,7 @@ public final class TermsTest {
         Check.due("v 1,000,000", x.fast(1000000), -1);
         Check.due("drove", x.drove(0), 9);
         for (int grip = 0; grip <= 10; grip++) {
-            OnTheRoof y = one(3, 9, 1, 0);
+            Roof y = one(3, 9, 1, 0);
             y.ask(2, grip);
             int held = y.fell(-1, 3);
             Check.due("as much as with GRIP " + grip, y.gripFor(held), grip);
@@ -438,7 +438,7 @@ public final class TermsTest {
         }
         Check.due("v 0", x.gripFor(0), 0);
         // The further behind, the more a high PACE has fallen ahead.
-        OnTheRoof hairpins = many(14, 3, 9, 1, 0);
+        Roof hairpins = many(14, 3, 9, 1, 0);
         int[] drove = new int[14];
         for (int i = 0; i < 14; i++) {
             drove[i] = hairpins.drove(i);
@@ -452,7 +452,7 @@ public final class TermsTest {
     }
 
     private static void slowsAtTheEdges() {
-        OnTheRoof x = many(14, 3, 0, 1, 0);
+        Roof x = many(14, 3, 0, 1, 0);
         x.ask(0, 1);
         dueAll("by PACE 1 none is slower", new int[] {x.slows(0), x.slows(1), x.slows(3)}, 0, 0, 0);
         x.ask(0, 2);
@@ -462,21 +462,21 @@ public final class TermsTest {
         for (int k : counts) {
             Check.due("as many as may be", Integer.bitCount(x.slows(k)), k);
         }
-        OnTheRoof one = one(0, 1, 1, 0);
+        Roof one = one(0, 1, 1, 0);
         one.ask(0, 2);
         dueAll("of one BEND", new int[] {one.slows(0), one.slows(1), one.slows(2), one.slows(3)}, 0, 1, 1, 1);
-        OnTheRoof last = many(13, 5, 9, 1, 0);
+        Roof last = many(13, 5, 9, 1, 0);
         last.bend(0, 1, 1, 0);
         last.ask(0, 9);
         dueAll("the last of 14", new int[] {last.slows(0), last.slows(1), last.slows(3)}, 0, 1 << 13, 1 << 13);
-        OnTheRoof dry = many(14, 0, 9, 1, 0);
+        Roof dry = many(14, 0, 9, 1, 0);
         dry.ask(2, 10);
         Check.due("with GRIP 10 none gains", dry.slows(3), 0);
-        Check.due("without BENDS", new OnTheRoof().slows(3), 0);
+        Check.due("without BENDS", new Roof().slows(3), 0);
     }
 
     private static void piecesAtTheEdges() {
-        OnTheRoof x = many(14, 0, 1, 999, 0);
+        Roof x = many(14, 0, 1, 999, 0);
         Ways.tell(x, 0, 0, 0, 13, 13);
         Check.due("the first and the last BEND", x.judge(0, 4), -1);
         Check.due("from the first to the last", x.apart(0, 4), 13 * 999);
@@ -518,7 +518,7 @@ public final class TermsTest {
     }
 
     private static void worthAtTheEdges() {
-        OnTheRoof x = many(14, 3, 9, 1, 0);
+        Roof x = many(14, 3, 9, 1, 0);
         settle(x, 9, 1, 0);
         Check.due("HELD", x.fell(-1, 9), 2735);
         Check.due("the most", x.worth(999, 999, 0), 995271);
@@ -527,7 +527,7 @@ public final class TermsTest {
         Check.due("one trip at price 1, cut", x.worth(1, 1, 0), 0);
         Check.due("cut ahead of the cost", x.worth(1, 1, 1), -1);
         Check.due("two", x.worth(1, 2, 0), 1);
-        Check.due("nothing falls", new OnTheRoof().worth(999, 999, 9999), -9999);
+        Check.due("nothing falls", new Roof().worth(999, 999, 9999), -9999);
         Check.due("once", x.once(1), 997265);
         Check.due("once in two", x.once(2), 999993);
         Check.due("once in three", x.once(3), 1000000);
@@ -539,7 +539,7 @@ public final class TermsTest {
     private static void seedsWrapAround() {
         int[] seeds = {1, 0, -1, MIN, MAX, 65535, 1 << 16, 0x5EED5EED, -12345};
         for (int seed : seeds) {
-            OnTheRoof x = many(14, 0, 0, 1, 0);
+            Roof x = many(14, 0, 0, 1, 0);
             Check.due("SEED at first", x.seed(seed), 1);
             Check.due("it holds by FALL 0", x.drive(), 0);
             long wrapped = seed;
@@ -577,7 +577,7 @@ public final class TermsTest {
         // FALL by PACE 9: 0, 162, 324, 111.
         int[][] ways = {{0, 0}, {1, 9}, {3, 9}, {4, 9}};
         for (int[] w : ways) {
-            OnTheRoof x = one(w[0], w[1], 1, 0);
+            Roof x = one(w[0], w[1], 1, 0);
             x.ask(0, 9);
             int fall = x.fall(0, 9);
             if (fall > 0) {
@@ -595,7 +595,7 @@ public final class TermsTest {
         }
         int[] sees = {30, 60, 90};
         for (int look = 1; look <= 3; look++) {
-            OnTheRoof x = Ways.three();
+            Roof x = Ways.three();
             x.lies(1);
             x.seed(seedFor(100, 0));
             Check.due("the least DRAW", x.look(1, look), 1);
@@ -623,7 +623,7 @@ public final class TermsTest {
             {Long.MAX_VALUE, -1, -1, -1, Long.MAX_VALUE, 1}, {Long.MIN_VALUE, 0, 0, 0, Long.MIN_VALUE, 1}};
         for (long[] d : due) {
             for (int sort = 0; sort <= 4; sort++) {
-                OnTheRoof x = new OnTheRoof();
+                Roof x = new Roof();
                 x.row(7, sort, 40);
                 x.row(6, sort, 40);
                 Check.due("an element at first", x.element(7, 39), 0);
@@ -638,7 +638,7 @@ public final class TermsTest {
 
     /** The 512th call answers as any other. */
     private static void lastCalls() {
-        OnTheRoof x = Ways.three();
+        Roof x = Ways.three();
         for (int i = 4; i <= 509; i++) {
             x.weight(i % 3);
         }

@@ -50,14 +50,14 @@ public final class TextEdgesTest {
     }
 
     private static void isWay(String text, int statements) {
-        OnTheRoof x = Ways.three();
+        Roof x = Ways.three();
         Check.due(text, Ways.read(x, text), statements);
         Check.due(text + ", THE TAPE", x.status(8), 0);
         Check.due(text + ", refused", x.status(12), 0);
     }
 
     private static void isFault(String text, int place) {
-        OnTheRoof x = Ways.three();
+        Roof x = Ways.three();
         x.sign(1, true, 5);
         x.look(1, 2);
         x.call(1, 1, 1);
@@ -107,7 +107,7 @@ public final class TextEdgesTest {
         for (int b = 0; b <= 255; b++) {
             boolean isToken = b >= 'a' && b <= 'z' || b >= '0' && b <= '9' || b == ';' || b == ' ';
             String name = "byte " + b;
-            OnTheRoof x = Ways.three();
+            Roof x = Ways.three();
             Check.due(name + " ahead", Ways.read(x, (char) b + "wet 1"), b == ' ' ? 1 : -20);
             Check.due(name + " behind", Ways.read(x, "wet 1" + (char) b), faultBehind(b));
             Check.due(name + " between", Ways.read(x, "wet" + (char) b + "1"), b == '0' || b == ' ' ? 1
@@ -187,7 +187,7 @@ public final class TextEdgesTest {
         isFault(";".repeat(250), 0);
         isFault("wet1;".repeat(50), 250);
         isWay("wet1;".repeat(49) + "wet0 ", 50);
-        OnTheRoof x = new OnTheRoof();
+        Roof x = new Roof();
         Ways.feedAll(x, "wet1;".repeat(50));
         Check.due("a full TAPE", x.status(8), 250);
         Check.refused(x, -6, "a byte more", () -> x.feed('w'));
@@ -198,21 +198,21 @@ public final class TextEdgesTest {
 
     private static void lastRoom() {
         String bend = "bend0 0 1 0;";
-        OnTheRoof bends = new OnTheRoof();
+        Roof bends = new Roof();
         Check.due("14 BENDS", Ways.read(bends, bend.repeat(13) + "bend0 0 1 0"), 14);
         Check.due("14 BENDS", bends.status(0), 14);
         Check.due("a 15th", Ways.read(bends, "bend 0 0 1 0"), -20);
-        OnTheRoof more = new OnTheRoof();
+        Roof more = new Roof();
         Check.due("15 BENDS", Ways.read(more, bend.repeat(14) + "bend0 0 1 0"), -20 - 14 * 12);
         Check.due("no BENDS", more.status(0), 0);
-        OnTheRoof signs = Ways.three();
+        Roof signs = Ways.three();
         Check.due("8 SIGNS", Ways.read(signs, "seen 0 1;gone 0 1;".repeat(3) + "seen 0 1;gone 0 1"), 8);
         Check.due("8 SIGNS", signs.status(1), 8);
         Check.due("a 9th", Ways.read(signs, "wet 1;gone 0 1"), -26);
         signs.anew();
         Check.due("9 SIGNS", Ways.read(signs, "seen 0 1;gone 0 1;".repeat(4) + "seen 0 1"), -20 - 72);
         Check.due("no SIGNS", signs.status(1), 0);
-        OnTheRoof calls = Ways.three();
+        Roof calls = Ways.three();
         Check.due("6 CALLS", Ways.read(calls, "call 0 1 1;".repeat(5) + "call 0 1 1"), 6);
         Check.due("6 CALLS", calls.status(17), 6);
         Check.due("a 7th", Ways.read(calls, "  call 0 1 1"), -22);
@@ -223,7 +223,7 @@ public final class TextEdgesTest {
     /** The word that there is no room for is the FAULT, whatever comes behind it. */
     private static void roomGoesAhead() {
         String[] behind = {"", " ", " 9 9 9 9", " x", ";", " 0 0 1 0", "#"};
-        OnTheRoof full = Ways.even(14, 1);
+        Roof full = Ways.even(14, 1);
         for (int i = 0; i < 8; i++) {
             full.sign(0, true, 0);
         }
@@ -241,7 +241,7 @@ public final class TextEdgesTest {
     }
 
     private static void bendsAreThereInOrder() {
-        OnTheRoof x = new OnTheRoof();
+        Roof x = new Roof();
         Check.due("a SIGN ahead of its BEND", Ways.read(x, "seen 0 5;bend 0 0 1 0"), -25);
         Check.due("a CALL ahead of its BEND", Ways.read(x, "call 0 5 5;bend 0 0 1 0"), -25);
         Check.due("a LOOK ahead of its BEND", Ways.read(x, "look 0 2;bend 0 0 1 0"), -25);
@@ -253,7 +253,7 @@ public final class TextEdgesTest {
     private static void looksOfEachWay() {
         int[] left = {70, 40, 10};
         for (int way = 0; way <= 2; way++) {
-            OnTheRoof x = Ways.three();
+            Roof x = Ways.three();
             x.lies(2);
             Check.due("look by " + way, Ways.read(x, "look 2 " + way), 1);
             Check.due("in vain, though it LIES there", x.bendOf(2, 4), left[way]);
@@ -263,7 +263,7 @@ public final class TextEdgesTest {
     }
 
     private static void emptyEitherWay() {
-        OnTheRoof x = Ways.three();
+        Roof x = Ways.three();
         Ways.feedAll(x, "pace 0");
         Check.due("no WAY", x.way(), -25);
         Check.due("THE TAPE is empty", x.status(8), 0);

@@ -14,7 +14,7 @@ public final class TextTest {
     }
 
     private static void feeds() {
-        OnTheRoof x = new OnTheRoof();
+        Roof x = new Roof();
         Check.due("feed 0", x.feed(0), 1);
         Check.due("feed 255", x.feed(255), 2);
         Check.refused(x, -2, "feed -1", () -> x.feed(-1));
@@ -29,7 +29,7 @@ public final class TextTest {
     }
 
     private static void wipes() {
-        OnTheRoof x = new OnTheRoof();
+        Roof x = new Roof();
         Check.due("wipe nothing", x.wipe(), 0);
         Ways.feedAll(x, "pace 4");
         Check.due("wipe", x.wipe(), 6);
@@ -40,7 +40,7 @@ public final class TextTest {
     }
 
     private static void readsAll() {
-        OnTheRoof x = new OnTheRoof();
+        Roof x = new Roof();
         int statements = Ways.read(x, "bend 5 9 999 1000;bend 0 0 1 0;pace 9;wet 1;grip 10;seen 1 100;gone 0 3;"
                 + "call 1 99 100;look 0 0;look 1 1;look 1 2");
         Check.due("way", statements, 11);
@@ -66,7 +66,7 @@ public final class TextTest {
     }
 
     private static void readsBlanks() {
-        OnTheRoof x = new OnTheRoof();
+        Roof x = new Roof();
         Check.due("blanks anywhere", Ways.read(x, "  bend  0   1 2   3  ;  pace  4  "), 2);
         Check.due("no blanks but where they are wanted", Ways.read(x, "bend0 1 2 3;pace5;wet1"), 3);
         Check.due("PACE", x.status(2), 5);
@@ -78,7 +78,7 @@ public final class TextTest {
     }
 
     private static void addsToWhatThereIs() {
-        OnTheRoof x = Ways.three();
+        Roof x = Ways.three();
         x.sign(0, true, 1);
         x.call(0, 1, 1);
         Check.due("way", Ways.read(x, "bend 2 3 4 5;seen 3 6;seen 0 7;call 3 8 9"), 4);
@@ -94,7 +94,7 @@ public final class TextTest {
 
     /** A text on a new object, which is no WAY: nothing comes of it but an empty TAPE and a refusal. */
     private static void fault(String text, int place) {
-        OnTheRoof x = new OnTheRoof();
+        Roof x = new Roof();
         String before = Ways.picture(x);
         Check.due(text, Ways.read(x, text), -20 - place);
         Check.that(text + " changed nothing", before.equals(Ways.picture(x)));
@@ -151,7 +151,7 @@ public final class TextTest {
     }
 
     private static void faultsByState() {
-        OnTheRoof x = Ways.three();
+        Roof x = Ways.three();
         Check.due("the last BEND there is", Ways.read(x, "seen 2 5"), 1);
         Check.due("none behind it", Ways.read(x, "seen 3 5"), -25);
         Check.due("one that comes behind", Ways.read(x, "seen 3 5;bend 0 0 1 0"), -25);
@@ -166,11 +166,11 @@ public final class TextTest {
     }
 
     private static void noRoom() {
-        OnTheRoof bends = Ways.even(13, 1);
+        Roof bends = Ways.even(13, 1);
         Check.due("the word of a 15th BEND", Ways.read(bends, "bend 0 0 1 0; bend 0 0 1 0"), -34);
         Check.due("a 14th", Ways.read(bends, "bend 0 0 1 0"), 1);
         Check.due("the word, whatever comes behind it", Ways.read(bends, " bend x"), -21);
-        OnTheRoof signs = Ways.three();
+        Roof signs = Ways.three();
         for (int i = 0; i < 7; i++) {
             signs.sign(0, true, 0);
         }
@@ -178,7 +178,7 @@ public final class TextTest {
         Check.due("the word of a 9th SIGN", Ways.read(signs, "seen 0 1;gone 0 1"), -29);
         Check.due("an 8th", Ways.read(signs, "gone 0 1"), 1);
         Check.due("no 9th", Ways.read(signs, "gone"), -20);
-        OnTheRoof calls = Ways.three();
+        Roof calls = Ways.three();
         for (int i = 0; i < 5; i++) {
             calls.call(0, 1, 1);
         }
@@ -197,14 +197,14 @@ public final class TextTest {
         fault("pace", 4);
         fault("pace 4;", 7);
         fault("pace 4; ", 8);
-        OnTheRoof x = new OnTheRoof();
         StringBuilder text = new StringBuilder("pace 4");
         while (text.length() < 250) {
             text.append(' ');
         }
-        Check.due("a whole TAPE", Ways.read(x, text.toString()), 1);
+        Check.due("a whole TAPE", Ways.read(new Roof(), text.toString()), 1);
         text.setCharAt(249, ';');
-        Check.due("a whole TAPE that ends too early", Ways.read(x, text.toString()), -270);
+        Check.due("a whole TAPE that ends too early", Ways.read(new Roof(), text.toString()), -270);
+        Roof x = new Roof();
         Check.due("the most statements", Ways.read(x, "wet1;".repeat(49) + "wet0"), 50);
         Check.due("WET", x.status(3), 0);
     }

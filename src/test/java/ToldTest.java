@@ -15,7 +15,7 @@ public final class ToldTest {
     }
 
     private static void judge() {
-        OnTheRoof x = Ways.three();
+        Roof x = Ways.three();
         Ways.tell(x, 0, 0, 0, 2, 1, 2);
         Check.due("judge none", x.judge(0, 0), -1);
         Check.due("judge(0, 3)", x.judge(0, 3), -1);
@@ -29,14 +29,14 @@ public final class ToldTest {
         x.set(2, 0, 1L << 32);
         Check.due("no such BEND of a long", x.judge(2, 1), 0);
         Check.due("nothing was refused", x.status(12) + x.status(15), 0);
-        OnTheRoof none = new OnTheRoof();
+        Roof none = new Roof();
         none.row(0, 0, 40);
         Check.due("without BENDS", none.judge(0, 40), 0);
         Check.due("none of none", none.judge(0, 0), -1);
     }
 
     private static void judgeOfEachSort() {
-        OnTheRoof x = Ways.three();
+        Roof x = Ways.three();
         for (int sort = 0; sort <= 4; sort++) {
             x.row(sort, sort, 3);
             x.set(sort, 1, 1);
@@ -47,7 +47,7 @@ public final class ToldTest {
     }
 
     private static void apart() {
-        OnTheRoof x = Ways.three();
+        Roof x = Ways.three();
         Ways.tell(x, 0, 0, 0, 2, 2, 1);
         Check.due("apart none", x.apart(0, 0), 0);
         Check.due("apart one", x.apart(0, 1), 0);
@@ -62,7 +62,7 @@ public final class ToldTest {
     }
 
     private static void search() {
-        OnTheRoof x = Ways.three();
+        Roof x = Ways.three();
         Ways.tell(x, 0, 1, 1, 23, 12);
         int[] seconds = {0, 11, 22, 83, 146};
         int[] found = {0, 4500, 7650, 15508, 24373};
@@ -74,7 +74,7 @@ public final class ToldTest {
     }
 
     private static void searchByState() {
-        OnTheRoof x = Ways.three();
+        Roof x = Ways.three();
         Ways.tell(x, 0, 1, 1, 23, 12);
         x.sign(2, true, 50);
         x.look(0, 1);
@@ -89,7 +89,7 @@ public final class ToldTest {
     }
 
     private static void searchStuck() {
-        OnTheRoof x = Ways.three();
+        Roof x = Ways.three();
         long[] wrong = {0, 4, 10, 14, 9, 31, 33, -1, -9, MIN, MAX, Long.MIN_VALUE, Long.MAX_VALUE, (1L << 32) + 1, 10L << 32 | 1};
         for (long w : wrong) {
             x.row(0, 3, 2);
@@ -99,13 +99,13 @@ public final class ToldTest {
             Check.refused(x, -5, "search of " + w, () -> x.search(0, 2, 1));
             Check.due("search ahead of " + w, x.search(0, 1, 0), 11);
         }
-        OnTheRoof none = new OnTheRoof();
+        Roof none = new Roof();
         Ways.tell(none, 0, 1);
         Check.refused(none, -5, "search without BENDS", () -> none.search(0, 1, 0));
     }
 
     private static void refusals() {
-        OnTheRoof x = Ways.three();
+        Roof x = Ways.three();
         Ways.tell(x, 0, 1, 99);
         x.show(1, 0);
         int[] shelves = {-1, 8, MIN, MAX};

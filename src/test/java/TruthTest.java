@@ -21,7 +21,7 @@ public final class TruthTest {
     }
 
     private static void lies() {
-        OnTheRoof x = Ways.three();
+        Roof x = Ways.three();
         Check.due("lies(2)", x.lies(2), -1);
         Check.due("lies(NONE)", x.lies(-1), 2);
         Check.due("lies(0)", x.lies(0), -1);
@@ -33,7 +33,7 @@ public final class TruthTest {
     }
 
     private static void draws() {
-        OnTheRoof x = Ways.three();
+        Roof x = Ways.three();
         int[] due = {1, 1103527590, -1770082073, 662824084, -999580867};
         Check.due("SEED", x.status(9), due[0]);
         x.ask(2, 10);
@@ -47,7 +47,7 @@ public final class TruthTest {
     }
 
     private static void drives() {
-        OnTheRoof x = Ways.three();
+        Roof x = Ways.three();
         x.lies(2);
         Check.due("838, 526, 113: it held", x.drive(), 0);
         Check.due("LIES", x.status(6), -1);
@@ -62,7 +62,7 @@ public final class TruthTest {
         // 14, below a FALL of 15; then at a FALL of 14 it doesn't fall.
         x.seed(275);
         Check.due("14: it fell at 0", x.drive(), 1);
-        OnTheRoof y = new OnTheRoof();
+        Roof y = new Roof();
         y.bend(0, 7, 1, 0);
         y.ask(0, 2);
         y.seed(275);
@@ -70,13 +70,13 @@ public final class TruthTest {
         y.ask(2, 10);
         y.seed(0);
         Check.due("0 isn't below 0", y.drive(), 0);
-        Check.due("without BENDS", new OnTheRoof().drive(), 0);
+        Check.due("without BENDS", new Roof().drive(), 0);
     }
 
     private static void driveForgets() {
         int[] seeds = {1, 0};
         for (int i = 0; i < seeds.length; i++) {
-            OnTheRoof x = Ways.three();
+            Roof x = Ways.three();
             x.sign(0, true, 50);
             x.call(1, 2, 3);
             x.look(1, 2);
@@ -90,7 +90,7 @@ public final class TruthTest {
     }
 
     private static void looks() {
-        OnTheRoof x = Ways.three();
+        Roof x = Ways.three();
         Check.due("look while it held", x.look(0, 1), 0);
         Check.due("MISS", x.bendOf(0, 4), 70);
         x.look(0, 2);
@@ -120,7 +120,7 @@ public final class TruthTest {
 
     /** A DRAW of what a WAY sees is in vain, the one below finds. */
     private static void atTheEdge(int look, int sees) {
-        OnTheRoof x = Ways.three();
+        Roof x = Ways.three();
         x.lies(0);
         x.seed(seedFor(sees));
         Check.due("a DRAW of " + sees, x.look(0, look), 0);
@@ -138,7 +138,7 @@ public final class TruthTest {
     }
 
     private static void lookRefusals() {
-        OnTheRoof x = Ways.three();
+        Roof x = Ways.three();
         x.lies(0);
         int[][] wrong = {{-1, 1}, {3, 1}, {0, 0}, {0, 4}, {MIN, 1}, {MAX, 1}, {0, MIN}, {0, MAX}};
         for (int[] w : wrong) {
@@ -147,8 +147,8 @@ public final class TruthTest {
     }
 
     private static void trips() {
-        OnTheRoof x = Ways.three();
-        OnTheRoof y = Ways.three();
+        Roof x = Ways.three();
+        Roof y = Ways.three();
         x.ask(0, 9);
         y.ask(0, 9);
         x.sign(0, true, 5);
@@ -168,11 +168,11 @@ public final class TruthTest {
         for (int n : wrong) {
             Check.refused(x, -2, "trips(" + n + ")", () -> x.trips(n));
         }
-        Check.due("without BENDS", new OnTheRoof().trips(99), 0);
+        Check.due("without BENDS", new Roof().trips(99), 0);
     }
 
     private static void seeds() {
-        OnTheRoof x = new OnTheRoof();
+        Roof x = new Roof();
         Check.due("seed at first", x.seed(MIN), 1);
         Check.due("seed then", x.seed(MAX), MIN);
         Check.due("SEED", x.status(9), MAX);
@@ -180,8 +180,8 @@ public final class TruthTest {
         Check.due("seed 0", x.seed(0), -1);
     }
 
-    private static OnTheRoof full() {
-        OnTheRoof x = Ways.three();
+    private static Roof full() {
+        Roof x = Ways.three();
         x.ask(0, 4);
         x.ask(1, 1);
         x.ask(2, 5);
@@ -193,7 +193,7 @@ public final class TruthTest {
         return x;
     }
 
-    private static void change(OnTheRoof x) {
+    private static void change(Roof x) {
         x.anew();
         x.bend(0, 9, 9, 9);
         x.ask(0, 1);
@@ -208,7 +208,7 @@ public final class TruthTest {
     }
 
     private static void keeps() {
-        OnTheRoof x = full();
+        Roof x = full();
         Check.refused(x, -5, "back to nothing", x::back);
         String before = Ways.picture(x);
         Check.due("image", x.image(), 1);
@@ -228,7 +228,7 @@ public final class TruthTest {
     }
 
     private static void keepsNotAll() {
-        OnTheRoof x = full();
+        Roof x = full();
         x.image();
         Ways.tell(x, 0, 5, 6);
         x.feed(65);
@@ -241,7 +241,7 @@ public final class TruthTest {
         x.wipe();
         x.back();
         Check.due("THE TAPE isn't kept", x.status(8), 0);
-        OnTheRoof empty = new OnTheRoof();
+        Roof empty = new Roof();
         empty.image();
         change(empty);
         empty.back();
@@ -250,7 +250,7 @@ public final class TruthTest {
     }
 
     private static void backAndShelves() {
-        OnTheRoof x = Ways.three();
+        Roof x = Ways.three();
         x.image();
         x.bend(5, 1, 77, 1);
         x.show(5, 2);
@@ -270,7 +270,7 @@ public final class TruthTest {
         Check.due("still NOTHING", x.holds(1), -1);
         x.show(1, 3);
         x.image();
-        OnTheRoof y = Ways.three();
+        Roof y = Ways.three();
         y.show(4, 1);
         y.ask(0, 9);
         y.image();
@@ -282,7 +282,7 @@ public final class TruthTest {
     }
 
     private static void statusOfAll() {
-        OnTheRoof x = full();
+        Roof x = full();
         Ways.feedAll(x, "abc");
         x.row(0, 0, 0);
         x.show(1, 1);
@@ -302,7 +302,7 @@ public final class TruthTest {
     }
 
     private static void statusOfRefusals() {
-        OnTheRoof x = Ways.three();
+        Roof x = Ways.three();
         int[] times = {1, 2, 3, 4, 5};
         x.show(0, 0);
         for (int i = 0; i < 6; i++) {

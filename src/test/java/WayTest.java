@@ -18,7 +18,7 @@ public final class WayTest {
     }
 
     private static void newObject() {
-        OnTheRoof x = new OnTheRoof();
+        Roof x = new Roof();
         int[] due = {0, 0, 3, 0, 0, 0, -1, 1000000, 0, 1, 0, 0, 0, 0, 0, 0, 0, 0, -1};
         for (int what = 0; what < due.length; what++) {
             Check.due("status(" + what + ")", x.status(what), due[what]);
@@ -30,7 +30,7 @@ public final class WayTest {
     }
 
     private static void bends() {
-        OnTheRoof x = new OnTheRoof();
+        Roof x = new Roof();
         Check.due("the least", x.bend(0, 0, 1, 0), 0);
         Check.due("the most", x.bend(5, 9, 999, 1000), 1);
         for (int i = 2; i < 14; i++) {
@@ -42,7 +42,7 @@ public final class WayTest {
     }
 
     private static void bendRefusals() {
-        OnTheRoof x = Ways.three();
+        Roof x = Ways.three();
         int[][] wrong = {{-1, 1, 1, 1}, {6, 1, 1, 1}, {0, -1, 1, 1}, {0, 10, 1, 1}, {0, 1, 0, 1}, {0, 1, 1000, 1},
             {0, 1, -1, 1}, {0, 1, 1, -1}, {0, 1, 1, 1001}, {MIN, 1, 1, 1}, {MAX, 1, 1, 1}, {0, MIN, 1, 1},
             {0, MAX, 1, 1}, {0, 1, MIN, 1}, {0, 1, MAX, 1}, {0, 1, 1, MIN}, {0, 1, 1, MAX}};
@@ -52,7 +52,7 @@ public final class WayTest {
     }
 
     private static void asks() {
-        OnTheRoof x = Ways.three();
+        Roof x = Ways.three();
         Check.due("PACE", x.ask(0, 9), 3);
         Check.due("PACE again", x.ask(0, 1), 9);
         Check.due("WET", x.ask(1, 1), 0);
@@ -70,7 +70,7 @@ public final class WayTest {
     }
 
     private static void signs() {
-        OnTheRoof x = Ways.three();
+        Roof x = Ways.three();
         Check.due("sign", x.sign(2, true, 100), 1);
         Check.due("sign", x.sign(0, false, 0), 2);
         int[] due = {2, 1, 100, 0, 0, 0};
@@ -84,7 +84,7 @@ public final class WayTest {
     }
 
     private static void signRefusals() {
-        OnTheRoof x = Ways.three();
+        Roof x = Ways.three();
         int[][] wrong = {{-1, 1}, {3, 1}, {MIN, 1}, {MAX, 1}, {0, -1}, {0, 101}, {0, MIN}, {0, MAX}};
         for (int[] w : wrong) {
             Check.refused(x, -2, "sign " + w[0] + " " + w[1], () -> x.sign(w[0], true, w[1]));
@@ -97,7 +97,7 @@ public final class WayTest {
     }
 
     private static void anew() {
-        OnTheRoof x = Ways.three();
+        Roof x = Ways.three();
         Check.due("anew without any", x.anew(), 0);
         x.sign(0, true, 5);
         x.sign(1, true, 5);
@@ -114,7 +114,7 @@ public final class WayTest {
     }
 
     private static void bendOf() {
-        OnTheRoof x = Ways.three();
+        Roof x = Ways.three();
         x.look(1, 1);
         int[] due = {1, 2, 250, 500, 70, 15, 350};
         for (int what = 0; what < due.length; what++) {
@@ -132,7 +132,7 @@ public final class WayTest {
     }
 
     private static void calls() {
-        OnTheRoof x = Ways.three();
+        Roof x = Ways.three();
         Check.due("call", x.call(2, 1, 0), 0);
         Check.due("call", x.call(0, 99, 100), 1);
         int[] due = {2, 1, 0, 0, 99, 100};
@@ -147,7 +147,7 @@ public final class WayTest {
     }
 
     private static void callRefusals() {
-        OnTheRoof x = Ways.three();
+        Roof x = Ways.three();
         int[][] wrong = {{-1, 1, 1}, {3, 1, 1}, {0, 0, 1}, {0, 100, 1}, {0, 1, -1}, {0, 1, 101}, {MIN, 1, 1},
             {MAX, 1, 1}, {0, MIN, 1}, {0, MAX, 1}, {0, 1, MIN}, {0, 1, MAX}};
         for (int[] w : wrong) {

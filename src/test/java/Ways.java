@@ -7,8 +7,8 @@ final class Ways {
      * Three bends by PACE 3, dry, with GRIP 0. FALL: 15, 15, 9. FELL: 15000, 14775, 8732; HELD: 961493. Their
      * looks take 11, 26, 101; 26, 63, 251; 7, 16, 61 seconds.
      */
-    static OnTheRoof three() {
-        OnTheRoof x = new OnTheRoof();
+    static Roof three() {
+        Roof x = new Roof();
         x.bend(0, 5, 100, 10);
         x.bend(1, 2, 250, 500);
         x.bend(5, 9, 60, 1000);
@@ -16,15 +16,15 @@ final class Ways {
     }
 
     /** Three bends, and the WEIGHT of HELD is 0: 38507 is left in all. */
-    static OnTheRoof threeFallen() {
-        OnTheRoof x = three();
+    static Roof threeFallen() {
+        Roof x = three();
         x.sign(2, false, 100);
         return x;
     }
 
     /** So many bends of KIND 0, a 1, so many yards each. */
-    static OnTheRoof even(int bends, int yards) {
-        OnTheRoof x = new OnTheRoof();
+    static Roof even(int bends, int yards) {
+        Roof x = new Roof();
         for (int i = 0; i < bends; i++) {
             x.bend(0, 1, yards, 100);
         }
@@ -32,26 +32,26 @@ final class Ways {
     }
 
     /** A SHELF gets a ROW of ints. */
-    static void tell(OnTheRoof x, int s, int... values) {
+    static void tell(Roof x, int s, int... values) {
         x.row(s, 2, values.length);
         for (int i = 0; i < values.length; i++) {
             x.set(s, i, values[i]);
         }
     }
 
-    static void feedAll(OnTheRoof x, String text) {
+    static void feedAll(Roof x, String text) {
         for (int i = 0; i < text.length(); i++) {
             x.feed(text.charAt(i));
         }
     }
 
-    static int read(OnTheRoof x, String text) {
+    static int read(Roof x, String text) {
         feedAll(x, text);
         return x.way();
     }
 
     /** The answers of all calls that change nothing, as one text. */
-    static String picture(OnTheRoof x) {
+    static String picture(Roof x) {
         StringBuilder all = new StringBuilder();
         for (int what = 0; what <= 11; what++) {
             all.append(x.status(what)).append(' ');
