@@ -276,6 +276,14 @@ public final class TermsTest {
         Roof far = many(9, 0, 1, 999, 0);
         Check.due("nine on FOOT", far.soonest(far.best(9000, -1)), 9000);
         Check.due("more than that", far.soonest(far.best(9000, -1) + 1), -1);
+        // With one more, of 6 seconds, all on FOOT take 9010, which is longer than can be.
+        far.bend(0, 1, 5, 0);
+        int all = 0;
+        for (int i = 0; i < 10; i++) {
+            all += far.found(i, 3);
+        }
+        Check.that("not all in 9000", far.best(9000, -1) < all);
+        Check.due("all on FOOT", far.soonest(all), -1);
         Check.due("nothing was refused", far.status(12), 0);
     }
 
